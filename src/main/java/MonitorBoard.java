@@ -37,10 +37,11 @@ public final class MonitorBoard {
 
     /** What a call of the monitor can come to, beside its result. */
     private static final int WAITS = -1;
-    private static final int BOOTED = -2;
-    private static final int SELECT = -3;
-    private static final int DRIVE_SHUT = -4;
-    private static final int FILE_SHUT = -5;
+    private static final int COLD_BOOT = -2;
+    private static final int WARM_BOOT = -3;
+    private static final int SELECT = -4;
+    private static final int DRIVE_SHUT = -5;
+    private static final int FILE_SHUT = -6;
 
     private static final int LINE_WAITS = 0;
     private static final int LINE_DONE = 1;
@@ -336,7 +337,9 @@ public final class MonitorBoard {
         void tellLine(String text) {
             tell(13);
             tell(10);
-            tellText(text);
+            for (int i = 0; i < text.length(); i++) {
+                tell(text.charAt(i));
+            }
         }
 
         /** For numbers below 100000, as records, blocks and users are. */
@@ -485,12 +488,12 @@ public final class MonitorBoard {
         }
 
         int peekWord(int at) {
-            return peek(at) | peek(at + 1) << 8;
+            return store[at & WORD] & 255 | (store[at + 1 & WORD] & 255) << 8;
         }
 
         void pokeWord(int at, int value) {
-            poke(at, value);
-            poke(at + 1, value >> 8);
+            store[at & WORD] = (byte) value;
+            store[at + 1 & WORD] = (byte) (value >> 8);
         }
 
         /** Pairs 0 BC, 1 DE, 2 HL, 3 SP. */
@@ -954,7 +957,8 @@ public final class MonitorBoard {
         final byte[] record = new byte[RECORD];
         final int[] sought = new int[FCB_SIZE];
         int soughtDrive;
-        int soughtEntry;
+        /** The entry from which call 18 goes on; ENTRIES when there is nothing more to be found. */
+        int soughtNext;
         boolean soughtOnce;
         int logged;
         int shut;
@@ -1031,7 +1035,7 @@ public final class MonitorBoard {
         /** The first entry of the user from one on with a name (of any extent: ANY); -1 without one. */
         int find(int[] like, int d, int extent, int from, boolean wild) {
             for (int e = from; e < ENTRIES; e++) {
-                int place = entryPlace(d, e);
+                int place = d * DRIVE_SIZE + recordAt[e >> 2] + (e & 3) * ENTRY_SIZE;
                 boolean same = (surface[place] & 255) == user
                     && (extent == ANY || (surface[place + 12] & 255) == extent);
                 for (int k = 1; k < 12 && same; k++) {
@@ -1051,7 +1055,7 @@ public final class MonitorBoard {
                 return setPlace(fcb[12] * EXTENT_RECORDS + fcb[32]);
             }
             if (number == 18) {
-                return searchOn();
+                return soughtOnce ? search() : 255;
             }
             int wrong = choose(number == 17);
             if (wrong == 0) {
@@ -1064,9 +1068,10 @@ public final class MonitorBoard {
                 case 15:
                     return numberOf(openExtent(fcb[12] & 31));
                 case 16:
-                    return closeFile();
+                    return closeExtent();
                 case 17:
-                    return searchFirst();
+                    keepSearch();
+                    return search();
                 case 19:
                     return erase();
                 case 20:
@@ -1144,7 +1149,8 @@ public final class MonitorBoard {
             return -1;
         }
 
-        private int closeFile() {
+        /** As call 16: the entry's number, 255 without one, or an error. */
+        int closeExtent() {
             int entry = find(fcb, drive, fcb[12] & 31, 0, false);
             if (entry < 0) {
                 return 255;
@@ -1155,48 +1161,49 @@ public final class MonitorBoard {
                     return DRIVE_SHUT;
                 }
             }
-            closeExtent();
+            for (int k = 15; k < ENTRY_SIZE; k++) {
+                surface[place + k] = (byte) fcb[k];
+            }
             return numberOf(entry);
         }
 
-        void closeExtent() {
-            int entry = find(fcb, drive, fcb[12] & 31, 0, false);
-            if (entry >= 0) {
-                int place = entryPlace(drive, entry);
-                for (int k = 15; k < ENTRY_SIZE; k++) {
-                    surface[place + k] = (byte) fcb[k];
-                }
-            }
-        }
-
-        private int searchFirst() {
+        private void keepSearch() {
             System.arraycopy(fcb, 0, sought, 0, 13);
             soughtDrive = drive;
+            soughtNext = 0;
             soughtOnce = true;
-            return search(0);
         }
 
-        private int searchOn() {
-            if (!soughtOnce) {
-                return 255;
-            }
+        private int search() {
             login(soughtDrive);
-            return soughtEntry < 0 ? 255 : search(soughtEntry + 1);
-        }
-
-        private int search(int from) {
+            int entry = -1;
             if (sought[0] == EVERY) {
-                soughtEntry = from < ENTRIES ? from : -1;
+                entry = soughtNext < ENTRIES ? soughtNext : -1;
             } else {
                 int extent = sought[12] == EVERY ? ANY : sought[12] & 31;
-                soughtEntry = find(sought, soughtDrive, extent, from, true);
+                entry = find(sought, soughtDrive, extent, soughtNext, true);
             }
-            if (soughtEntry >= 0) {
-                int place = soughtDrive * DRIVE_SIZE + recordAt[soughtEntry >> 2];
+            if (entry >= 0) {
+                int place = soughtDrive * DRIVE_SIZE + recordAt[entry >> 2];
                 System.arraycopy(surface, place, record, 0, RECORD);
                 fetched = true;
             }
-            return numberOf(soughtEntry);
+            soughtNext = entry < 0 ? ENTRIES : entry + 1;
+            return numberOf(entry);
+        }
+
+        /** The file is deleted and made, as by calls 19 and 22: the result of 22, or an error. */
+        int remake(int[] file) {
+            System.arraycopy(file, 0, fcb, 0, FCB_SIZE);
+            int wrong = choose(false);
+            if (wrong == 0) {
+                wrong = guard(19);
+            }
+            if (wrong != 0) {
+                return wrong;
+            }
+            erase();
+            return numberOf(makeExtent(0));
         }
 
         private int erase() {
@@ -1531,7 +1538,11 @@ public final class MonitorBoard {
             processor.spent += SERVICE_STATES;
             if (answer >= 0) {
                 processor.pc = processor.pop();
-            } else if (answer != BOOTED) {
+            } else if (answer == COLD_BOOT) {
+                bootCold();
+            } else if (answer == WARM_BOOT) {
+                bootWarm();
+            } else {
                 tellError(answer);
             }
             return true;
@@ -1542,11 +1553,9 @@ public final class MonitorBoard {
             int bc = processor.pair(0);
             switch (k) {
                 case 0:
-                    bootCold();
-                    return BOOTED;
+                    return COLD_BOOT;
                 case 1:
-                    bootWarm();
-                    return BOOTED;
+                    return WARM_BOOT;
                 case 2:
                     return accumulate(console.status());
                 case 3:
@@ -1647,8 +1656,7 @@ public final class MonitorBoard {
             int e = de & 255;
             switch (number) {
                 case 0:
-                    bootWarm();
-                    return BOOTED;
+                    return WARM_BOOT;
                 case 1:
                     return console.keyCount == 0 ? WAITS : echoKey();
                 case 2:
@@ -1718,8 +1726,7 @@ public final class MonitorBoard {
                 return WAITS;
             }
             if (got == LINE_BROKEN) {
-                bootWarm();
-                return BOOTED;
+                return WARM_BOOT;
             }
             processor.poke(at + 1, console.lineCount);
             for (int i = 0; i < console.lineCount; i++) {
@@ -2287,14 +2294,8 @@ public final class MonitorBoard {
             return count;
         }
 
-        /** The file is deleted and made. */
-        private int begin(int[] file) {
-            System.arraycopy(file, 0, files.fcb, 0, FCB_SIZE);
-            int answer = files.perform(19);
-            if (answer < 0) {
-                return answer;
-            }
-            answer = files.perform(22);
+        /** What deleting and making a file came to. */
+        private static int outcomeOf(int answer) {
             return answer == 255 ? NO_SPACE : Math.min(answer, DONE);
         }
 
@@ -2318,7 +2319,7 @@ public final class MonitorBoard {
             if (!hasWords(2) || pages < 0 || !readWord(1, first)) {
                 return BAD;
             }
-            int outcome = begin(first);
+            int outcome = outcomeOf(files.remake(first));
             return outcome == DONE ? writeFromMemory(2 * pages) : outcome;
         }
 
@@ -2338,7 +2339,7 @@ public final class MonitorBoard {
             if (!reader.open(second, from)) {
                 return NO_FILE;
             }
-            int outcome = begin(first);
+            int outcome = outcomeOf(files.remake(first));
             if (outcome != DONE) {
                 return outcome;
             }
@@ -2372,7 +2373,7 @@ public final class MonitorBoard {
             }
             System.arraycopy(hexText.image, 0, processor.store, PROGRAM, PROGRAM_SIZE);
             setType(first, "COM");
-            int outcome = begin(first);
+            int outcome = outcomeOf(files.remake(first));
             return outcome == DONE ? writeFromMemory(hexText.records()) : outcome;
         }
 
@@ -2573,6 +2574,7 @@ public final class MonitorBoard {
         static final int DB = 14;
         static final int DW = 15;
         static final int DS = 16;
+        static final int END = 17;
         /** By kind: how many bytes, and which bits of the code tell the operation. */
         static final int[] SIZES = {1, 1, 2, 3, 1, 1, 3, 1, 1, 2, 1, 1};
         static final int[] MASKS = {0xFF, 0xC0, 0xC7, 0xCF, 0xCF, 0xEF, 0xFF, 0xC7, 0xF8, 0xFF, 0xC7, 0xCF};
@@ -2587,16 +2589,26 @@ public final class MonitorBoard {
         static final int LABELS_MOST = 100;
         static final int DEPTH_MOST = 100;
         static final int QUOTE = '\'';
-        static final int END_OF_TEXT = -1;
+        static final int NONE = -1;
+        static final int WORD_SIGNS = 8;
+        static final long NO_LABEL = 0;
+        /** What a number is for. */
+        static final int ONE_WORD = 0;
+        static final int ONE_BYTE = 1;
+        static final int UP_TO_SEVEN = 2;
+        static final int TOLD_ABOVE = 3;
 
         final byte[] text;
         final byte[] image;
         final long[] names = packedWords(Codes.NAMES, Codes.COUNT);
+        /** Of letters and digits what they are as capitals; 0 of all other signs. */
+        final int[] capitals = new int[256];
         final long[] labels = new long[LABELS_MOST];
         final int[] values = new int[LABELS_MOST];
         /** What waits outside of the parentheses that are open: sum, term and how they are joined. */
         final int[] outside = new int[3 * DEPTH_MOST];
         int labelCount;
+        long label;
         int length;
         int at;
         int fault;
@@ -2604,8 +2616,6 @@ public final class MonitorBoard {
         int top;
         int lineAddress;
         int labelValue;
-        /** Whether a label that is not there is a fault now. */
-        boolean strict;
         boolean secondPass;
         boolean ended;
         long word;
@@ -2615,65 +2625,100 @@ public final class MonitorBoard {
         Assembler(byte[] text, byte[] image) {
             this.text = text;
             this.image = image;
+            for (int sign = '0'; sign <= 'z'; sign++) {
+                int big = capital(sign);
+                capitals[sign] = sign <= '9' || big >= 'A' && big <= 'Z' ? big : 0;
+            }
         }
 
         /** How many bytes came, or -1 less the fault's place. */
         int translate(int count) {
             length = Math.min(count, text.length);
             labelCount = 0;
-            fault = -1;
-            secondPass = false;
-            readLines();
-            if (fault < 0) {
-                secondPass = true;
-                readLines();
+            fault = NONE;
+            for (int pass = 1; pass <= 2 && fault == NONE; pass++) {
+                secondPass = pass == 2;
+                at = 0;
+                address = PROGRAM;
+                top = PROGRAM;
+                ended = false;
+                for (int line = 0; line <= TAPE_MOST && at < length && fault == NONE && !ended; line++) {
+                    readLabel();
+                    readOperation();
+                    finishLine();
+                }
             }
-            return fault < 0 ? top - PROGRAM : -1 - fault;
+            return fault == NONE ? top - PROGRAM : -1 - fault;
         }
 
-        private void readLines() {
-            at = 0;
-            address = PROGRAM;
-            top = PROGRAM;
-            ended = false;
-            for (int line = 0; line <= TAPE_MOST && at < length && fault < 0 && !ended; line++) {
-                readLine();
-            }
-        }
-
-        private void readLine() {
+        private void readLabel() {
             lineAddress = address;
             labelValue = address;
-            boolean labelled = isLetter(here());
-            long label = labelled ? readLabel() : 0;
-            skipBlanks();
-            if (fault < 0 && isLetter(here())) {
-                readOperation(labelled);
+            label = NO_LABEL;
+            if (!isLetter()) {
+                return;
             }
-            if (fault < 0 && labelled && !secondPass && labelCount < LABELS_MOST) {
-                labels[labelCount] = label;
-                values[labelCount] = labelValue;
-                labelCount++;
-            }
-            if (fault < 0 && !ended) {
-                finishLine();
-            }
-        }
-
-        private long readLabel() {
             readWord();
-            if (wordLength > 8) {
-                fail(wordFrom + 8);
-            } else if (!secondPass && (labelCount >= LABELS_MOST || labelIndex() >= 0)) {
+            label = word;
+            if (wordLength > WORD_SIGNS) {
+                fail(wordFrom + WORD_SIGNS);
+            } else if (!secondPass && (labelCount >= LABELS_MOST || indexOfWord(labels, labelCount, word) >= 0)) {
                 fail(wordFrom);
             }
             if (here() == ':') {
                 at++;
             }
-            return word;
         }
 
+        private void readOperation() {
+            skipBlanks();
+            if (fault != NONE || !isLetter()) {
+                return;
+            }
+            readWord();
+            int from = wordFrom;
+            int index = wordLength > WORD_SIGNS ? -1 : indexOfWord(names, Codes.COUNT, word);
+            if (index < 0) {
+                fail(from);
+                return;
+            }
+            int kind = Codes.KINDS[index];
+            switch (kind) {
+                case Codes.ORG:
+                    readOrigin();
+                    break;
+                case Codes.EQU:
+                    if (label == NO_LABEL) {
+                        fail(from);
+                    }
+                    labelValue = readNumber(TOLD_ABOVE);
+                    break;
+                case Codes.DB:
+                case Codes.DW:
+                    readItems(kind, from);
+                    break;
+                case Codes.DS:
+                    readSpace();
+                    break;
+                case Codes.END:
+                    ended = true;
+                    break;
+                default:
+                    readInstruction(kind, Codes.CODES[index], from);
+                    break;
+            }
+        }
+
+        /** The label is told only here: its own line does not stand above itself. */
         private void finishLine() {
+            if (label != NO_LABEL && !secondPass && labelCount < LABELS_MOST) {
+                labels[labelCount] = label;
+                values[labelCount] = labelValue;
+                labelCount++;
+            }
+            if (ended) {
+                return;
+            }
             skipBlanks();
             if (here() == ';') {
                 while (at < length && text[at] != 10) {
@@ -2687,63 +2732,43 @@ public final class MonitorBoard {
             }
         }
 
+        /** The first fault counts. */
         private void fail(int place) {
-            if (fault < 0) {
+            if (fault == NONE) {
                 fault = place;
             }
         }
 
         private int signAt(int place) {
-            return place < length ? text[place] & 255 : END_OF_TEXT;
+            return place < length ? text[place] & 255 : NONE;
         }
 
         private int here() {
-            return at < length ? text[at] & 255 : END_OF_TEXT;
+            return at < length ? text[at] & 255 : NONE;
+        }
+
+        private boolean isLetter() {
+            return at < length && capitals[text[at] & 255] >= 'A';
         }
 
         private void skipBlanks() {
-            while (at < length && (text[at] == ' ' || text[at] == 9 || text[at] == 13 && signAt(at + 1) == 10)) {
+            while (at < length && (text[at] == ' ' || text[at] == 9
+                || text[at] == 13 && at + 1 < length && text[at + 1] == 10)) {
                 at++;
             }
         }
 
-        private static boolean isLetter(int sign) {
-            int big = capital(sign);
-            return big >= 'A' && big <= 'Z';
-        }
-
-        private static boolean isDigit(int sign) {
-            return sign >= '0' && sign <= '9';
-        }
-
-        /** Letters and digits; a word of more than eight is none that could be known. */
+        /** Letters and digits; of a word with more signs than eight only these are kept. */
         private void readWord() {
             word = 1;
             wordFrom = at;
-            while (at < length && (isLetter(text[at]) || isDigit(text[at]))) {
-                if (at - wordFrom < 8) {
-                    word = packed(word, capital(text[at]));
+            while (at < length && capitals[text[at] & 255] != 0) {
+                if (at - wordFrom < WORD_SIGNS) {
+                    word = word * 128 + capitals[text[at] & 255];
                 }
                 at++;
             }
             wordLength = at - wordFrom;
-        }
-
-        private int labelIndex() {
-            return wordLength > 8 ? -1 : indexOfWord(labels, labelCount, word);
-        }
-
-        private void readOperation(boolean labelled) {
-            readWord();
-            int from = wordFrom;
-            int index = wordLength > 8 ? -1 : indexOfWord(names, Codes.COUNT, word);
-            if (index < 0) {
-                fail(from);
-            } else if (Codes.KINDS[index] < Codes.ORG) {
-                readInstruction(Codes.KINDS[index], Codes.CODES[index], from);
-            } else {
-                readDirective(Codes.KINDS[index], from, labelled);
-            }
         }
 
         private void readInstruction(int kind, int base, int from) {
@@ -2756,12 +2781,12 @@ public final class MonitorBoard {
                 case Codes.INTO_BYTE:
                     code |= readRegister() << 3;
                     readComma();
-                    value = readByte();
+                    value = readNumber(ONE_BYTE);
                     break;
                 case Codes.INTO_PAIR:
                     code |= readPair(kind) << 4;
                     readComma();
-                    value = readNumber(false);
+                    value = readNumber(ONE_WORD);
                     break;
                 case Codes.PAIR:
                 case Codes.SHORT_PAIR:
@@ -2769,7 +2794,7 @@ public final class MonitorBoard {
                     code |= readPair(kind) << 4;
                     break;
                 case Codes.ADDRESS:
-                    value = readNumber(false);
+                    value = readNumber(ONE_WORD);
                     break;
                 case Codes.TARGET:
                     code |= readRegister() << 3;
@@ -2778,10 +2803,10 @@ public final class MonitorBoard {
                     code |= readRegister();
                     break;
                 case Codes.BYTE:
-                    value = readByte();
+                    value = readNumber(ONE_BYTE);
                     break;
                 case Codes.RESTART:
-                    code |= readRestart() << 3;
+                    code |= (readNumber(UP_TO_SEVEN) & 7) << 3;
                     break;
                 default:
                     break;
@@ -2801,11 +2826,9 @@ public final class MonitorBoard {
         private int readMove() {
             int to = readRegister();
             readComma();
-            skipBlanks();
-            int place = at;
             int from = readRegister();
             if (to == Processor.AT_HL && from == Processor.AT_HL) {
-                fail(place);
+                fail(wordFrom);
             }
             return to << 3 | from;
         }
@@ -2827,7 +2850,7 @@ public final class MonitorBoard {
             int index = -1;
             if (wordLength == 1) {
                 index = Codes.PAIRS.indexOf((char) (word & 127));
-            } else if (wordLength < 4 && word == (kind == Codes.STACK_PAIR ? Codes.PSW : Codes.SP)) {
+            } else if (word == (kind == Codes.STACK_PAIR ? Codes.PSW : Codes.SP)) {
                 index = 3;
             }
             if (index < 0 || kind == Codes.SHORT_PAIR && index > 1) {
@@ -2846,31 +2869,11 @@ public final class MonitorBoard {
             }
         }
 
-        private int readByte() {
-            skipBlanks();
-            int from = at;
-            int value = readNumber(false);
-            if (secondPass && value > 255 && value < 65280) {
-                fail(from);
-            }
-            return value & 255;
-        }
-
-        private int readRestart() {
-            skipBlanks();
-            int from = at;
-            int value = readNumber(false);
-            if (secondPass && value > 7) {
-                fail(from);
-            }
-            return value & 7;
-        }
-
         private boolean fits(int count, int from) {
-            if (fault < 0 && address + count > PROGRAM_END) {
+            if (address + count > PROGRAM_END) {
                 fail(from);
             }
-            return fault < 0;
+            return fault == NONE;
         }
 
         /** A byte comes; those ahead of it that none told are 0. */
@@ -2889,38 +2892,13 @@ public final class MonitorBoard {
             }
         }
 
-        private void readDirective(int kind, int from, boolean labelled) {
-            switch (kind) {
-                case Codes.ORG:
-                    readOrigin();
-                    break;
-                case Codes.EQU:
-                    if (!labelled) {
-                        fail(from);
-                    }
-                    labelValue = readNumber(true);
-                    break;
-                case Codes.DB:
-                case Codes.DW:
-                    readItems(kind, from);
-                    break;
-                case Codes.DS:
-                    readSpace();
-                    break;
-                default:
-                    ended = true;
-                    break;
-            }
-        }
-
         private void readOrigin() {
             skipBlanks();
             int from = at;
-            int value = readNumber(true);
-            if (fault < 0 && (value < address || value > PROGRAM_END)) {
+            int value = readNumber(TOLD_ABOVE);
+            if (value < address || value > PROGRAM_END) {
                 fail(from);
-            }
-            if (fault < 0) {
+            } else {
                 address = value;
                 labelValue = value;
             }
@@ -2929,7 +2907,7 @@ public final class MonitorBoard {
         private void readSpace() {
             skipBlanks();
             int from = at;
-            int value = readNumber(true);
+            int value = readNumber(TOLD_ABOVE);
             if (fits(value, from) && value > 0) {
                 clearUpTo(address + value);
                 address += value;
@@ -2939,16 +2917,16 @@ public final class MonitorBoard {
 
         private void readItems(int kind, int from) {
             boolean more = true;
-            for (int n = 0; n <= TAPE_MOST && more && fault < 0; n++) {
+            for (int n = 0; n <= TAPE_MOST && more && fault == NONE; n++) {
                 skipBlanks();
                 if (kind == Codes.DW) {
-                    int value = readNumber(false);
+                    int value = readNumber(ONE_WORD);
                     if (fits(2, from)) {
                         put(value);
                         put(value >> 8);
                     }
                 } else if (here() != QUOTE || !readText(from)) {
-                    int value = readByte();
+                    int value = readNumber(ONE_BYTE);
                     if (fits(1, from)) {
                         put(value);
                     }
@@ -2996,14 +2974,15 @@ public final class MonitorBoard {
             at = end + 1;
         }
 
-        /** An expression; told: its labels have to stand above. */
-        private int readNumber(boolean told) {
-            strict = told || secondPass;
+        /** An expression, of which the use tells what it may be. */
+        private int readNumber(int use) {
+            skipBlanks();
+            int from = at;
             int depth = 0;
             int sum = 0;
             int term = 0;
             int joint = 0;
-            for (int turn = 0; turn <= TAPE_MOST && fault < 0; turn++) {
+            for (int turn = 0; turn <= TAPE_MOST && fault == NONE; turn++) {
                 int negative = readSigns();
                 if (here() == '(') {
                     if (depth == DEPTH_MOST) {
@@ -3020,8 +2999,8 @@ public final class MonitorBoard {
                     at++;
                     continue;
                 }
-                int value = signed(readPart(), negative);
-                for (int turnBack = 0; turnBack <= DEPTH_MOST; turnBack++) {
+                int value = signed(readPart(use == TOLD_ABOVE || secondPass), negative);
+                for (int closed = 0; closed <= DEPTH_MOST; closed++) {
                     term = joined(term, joint & 127, value);
                     skipBlanks();
                     int sign = here();
@@ -3029,13 +3008,13 @@ public final class MonitorBoard {
                         joint = joint & 128 | sign;
                         break;
                     }
-                    sum = sum + signed(term, joint >> 7 & 1) & WORD;
+                    sum = sum + signed(term, joint >> 7) & WORD;
                     if (sign == '+' || sign == '-') {
                         joint = sign == '-' ? 128 : 0;
                         break;
                     }
                     if (depth == 0) {
-                        return sum;
+                        return checked(sum, use, from);
                     }
                     if (sign != ')') {
                         fail(at);
@@ -3051,6 +3030,14 @@ public final class MonitorBoard {
                 at++;
             }
             return 0;
+        }
+
+        private int checked(int value, int use, int from) {
+            boolean high = use == ONE_BYTE && value > 255 && value < 65280 || use == UP_TO_SEVEN && value > 7;
+            if (secondPass && high) {
+                fail(from);
+            }
+            return value;
         }
 
         /** The signs ahead of a part: 1 when it is to be taken negative. */
@@ -3079,28 +3066,25 @@ public final class MonitorBoard {
             return value;
         }
 
-        private int readPart() {
+        /** A part of an expression; strict: a label that is not there is a fault now. */
+        private int readPart(boolean strict) {
             int sign = here();
-            if (isDigit(sign)) {
-                return readDigits();
-            }
-            if (isLetter(sign)) {
-                return readLabelValue();
-            }
             if (sign == QUOTE) {
                 return readSign();
             }
-            if (sign != '$') {
+            if (sign == '$') {
+                at++;
+                return lineAddress;
+            }
+            readWord();
+            if (wordLength == 0) {
                 fail(at);
                 return 0;
             }
-            at++;
-            return lineAddress;
-        }
-
-        private int readLabelValue() {
-            readWord();
-            int index = labelIndex();
+            if (sign <= '9') {
+                return digitsOfWord();
+            }
+            int index = wordLength > WORD_SIGNS ? -1 : indexOfWord(labels, labelCount, word);
             if (index < 0) {
                 if (strict) {
                     fail(wordFrom);
@@ -3110,28 +3094,30 @@ public final class MonitorBoard {
             return values[index];
         }
 
-        private static int baseOf(int last) {
-            switch (last) {
+        private int digitsOfWord() {
+            int base = 10;
+            int end = at - 1;
+            switch (capitals[signAt(end) & 255]) {
                 case 'H':
-                    return 16;
+                    base = 16;
+                    break;
                 case 'O':
                 case 'Q':
-                    return 8;
+                    base = 8;
+                    break;
                 case 'B':
-                    return 2;
+                    base = 2;
+                    break;
+                case 'D':
+                    break;
                 default:
-                    return 10;
+                    end = at;
+                    break;
             }
-        }
-
-        private int readDigits() {
-            readWord();
-            int last = capital(text[at - 1]);
-            int base = baseOf(last);
-            int end = last == 'H' || last == 'O' || last == 'Q' || last == 'B' || last == 'D' ? at - 1 : at;
             int value = 0;
             for (int i = wordFrom; i < end; i++) {
-                int digit = isDigit(text[i]) ? text[i] - '0' : capital(text[i]) - 'A' + 10;
+                int sign = capitals[text[i] & 255];
+                int digit = sign <= '9' ? sign - '0' : sign - 'A' + 10;
                 if (digit >= base) {
                     fail(i);
                     return 0;
