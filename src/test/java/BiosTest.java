@@ -46,7 +46,7 @@ public final class BiosTest {
         Kit.type(b, "XY");
         bios(b, 0, 0);
         Kit.due("keys are gone", b.keys(), 0);
-        for (int at : new int[] {60416 + 51, 60417, 60418, 60935}) {
+        for (int at : new int[] {60416 + 51, 60417, 60420, 60935}) {
             Kit.put(b, at, 0x3C, 0x76);
             b.jump(at);
             b.run(100);
