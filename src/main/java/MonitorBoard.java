@@ -572,9 +572,14 @@ public final class MonitorBoard {
         }
 
         private void flagsOf(int value) {
-            setFlag(SIGN, (value & 128) != 0);
-            setFlag(ZERO, (value & 255) == 0);
-            setFlag(EVEN, (Integer.bitCount(value & 255) & 1) == 0);
+            int shape = value & SIGN;
+            if ((value & 255) == 0) {
+                shape |= ZERO;
+            }
+            if ((Integer.bitCount(value & 255) & 1) == 0) {
+                shape |= EVEN;
+            }
+            flags = flags & ~(SIGN | ZERO | EVEN) | shape;
         }
 
         private void stepMove(int code) {
@@ -1461,7 +1466,7 @@ public final class MonitorBoard {
         }
 
         static boolean isEntry(int pc) {
-            return pc == CALLS || pc >= BIOS && pc <= LAST_BIOS && (pc - BIOS) % 3 == 0;
+            return pc >= BIOS && (pc == CALLS || pc <= LAST_BIOS && (pc - BIOS) % 3 == 0);
         }
 
         void bootCold() {
@@ -1821,6 +1826,17 @@ public final class MonitorBoard {
     private static final class Shell {
         static final String NAMES = "DIR ERA REN TYPE SAVE USER DUMP STAT COPY HEXLOAD";
         static final int COMMANDS = 10;
+        /** Their places in NAMES. */
+        static final int DIR = 0;
+        static final int ERA = 1;
+        static final int REN = 2;
+        static final int TYPE = 3;
+        static final int SAVE = 4;
+        static final int USER = 5;
+        static final int DUMP = 6;
+        static final int STAT = 7;
+        static final int COPY = 8;
+        static final int HEXLOAD = 9;
         static final String NO_SIGNS = ".:;,=<>*[]";
         static final int LINE_MOST = 127;
         static final int WORDS_KEPT = 2;
@@ -1877,34 +1893,34 @@ public final class MonitorBoard {
             takeLine();
             int outcome;
             switch (command()) {
-                case 0:
+                case DIR:
                     outcome = tellDirectory();
                     break;
-                case 1:
+                case ERA:
                     outcome = erase();
                     break;
-                case 2:
+                case REN:
                     outcome = rename();
                     break;
-                case 3:
+                case TYPE:
                     outcome = type();
                     break;
-                case 4:
+                case SAVE:
                     outcome = save();
                     break;
-                case 5:
+                case USER:
                     outcome = chooseUser();
                     break;
-                case 6:
+                case DUMP:
                     outcome = dump();
                     break;
-                case 7:
+                case STAT:
                     outcome = tellStatus();
                     break;
-                case 8:
+                case COPY:
                     outcome = copy();
                     break;
-                case 9:
+                case HEXLOAD:
                     outcome = loadHex();
                     break;
                 default:
