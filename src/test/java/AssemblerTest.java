@@ -352,6 +352,12 @@ public final class AssemblerTest {
         Kit.tape(board, " NOP\n");
         board.end(4);
         Kit.due("without its 10", board.assemble(), 1);
+        Kit.tape(board, " DW 'a'+1\n");
+        board.end(6);
+        Kit.due("what was behind the end does not count", board.assemble(), -1 - 6);
+        Kit.tape(board, " DW 1--1\n");
+        board.end(6);
+        Kit.due("nor here", board.assemble(), -1 - 6);
         Kit.due("an empty tape", board.assemble(), 0);
     }
 }

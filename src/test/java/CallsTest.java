@@ -14,6 +14,7 @@ public final class CallsTest {
         deleteRename();
         sequential();
         extents();
+        nextInEntryZero();
         random();
         sizes();
         errors();
@@ -304,6 +305,7 @@ public final class CallsTest {
         for (int i = 1; i < 10; i++) {
             Kit.due("also free ones", file(b, 18), i % 4);
         }
+        everyEntry();
         Kit.due("37", Kit.result(b, 37, 3), 0);
         Kit.result(b, 14, 1);
         Kit.due("17 at A, at hand is B", file(b, 18), 2);
@@ -323,6 +325,46 @@ public final class CallsTest {
         Kit.fcb(b, FCB, 1, "??", "X");
         Kit.result(b, 32, 7);
         Kit.due("of this user", file(b, 17), 255);
+    }
+
+    /** Sixty-four entries, then none. */
+    private static void everyEntry() {
+        MonitorBoard b = new MonitorBoard();
+        Kit.fcb(b, FCB, '?', "", "");
+        Kit.program(b, " LXI SP,4000H\n LXI D,3000H\n MVI C,17\nL: CALL 5\n INR A\n JZ E\n LXI H,2000H\n INR M\n"
+            + " MVI C,18\n JMP L\nE: HLT\n");
+        b.jump(256);
+        Kit.due("ends", b.run(200000), 2);
+        Kit.due("all entries", b.memory(0x2000), 64);
+        Kit.due("none behind", file(b, 18), 255);
+    }
+
+    /** The next extent's entry is the first one of the directory. */
+    private static void nextInEntryZero() {
+        MonitorBoard b = withData();
+        Kit.fcb(b, FCB, 0, "N", "");
+        Kit.put(b, FCB + 12, 1);
+        file(b, 22);
+        fill(b, 'n');
+        file(b, 21);
+        file(b, 16);
+        Kit.fcb(b, FCB, 0, "N", "");
+        Kit.put(b, FCB + 32, 128);
+        fill(b, 0);
+        Kit.due("read goes to entry 0", file(b, 20), 0);
+        Kit.due("it", b.memory(DATA), 'n');
+        Kit.fcb(b, FCB, 0, "N", "");
+        Kit.put(b, FCB + 32, 128);
+        Kit.due("write goes there too", file(b, 21), 0);
+        Kit.due("no entry more", dir(b, 0, 1, 0), 0xE5);
+        Kit.fcb(b, FCB, 0, "N", "");
+        Kit.put(b, FCB + 33, 128, 0, 0);
+        Kit.due("33 too", file(b, 33), 0);
+        Kit.fcb(b, FCB, 0, "N", "");
+        Kit.put(b, FCB + 33, 255, 0, 0);
+        Kit.due("40 fills", file(b, 40), 0);
+        Kit.due("its block", b.memory(FCB + 31), 3);
+        Kit.due("and no other", b.disk(0, 3, 1 + (6 * 6) % 26, 0, 0), 0xE5);
     }
 
     private static void deleteRename() {

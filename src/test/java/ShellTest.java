@@ -51,6 +51,9 @@ public final class ShellTest {
         Kit.type(b, "\u0003");
         b.run(100);
         Kit.due("3 is a warm boot", Kit.told(b), "\r\nA>");
+        Kit.type(b, "\u0003DIR\r");
+        b.run(100);
+        Kit.due("and the next line", Kit.told(b), "\r\nA>DIR\r\r\nNo file\r\nA>");
         Kit.type(b, "\u0001\u0003\r");
         b.run(100);
         Kit.due("3 behind a sign", Kit.told(b), "^A^C\r\r\n\u0001\u0003?\r\nA>");
