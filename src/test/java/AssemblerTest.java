@@ -206,6 +206,7 @@ public final class AssemblerTest {
         gives(" DB ''''\n", "27");
         gives(" DB 'A'+1,'A'*2\n", "4282");
         gives(" DB 'a;b' ; c\n", "613B62");
+        gives(" DB ' ~' ;c\n DB ' ' ; cc\n DB 1;ccc\n DB 2\n", "207E200102");
         gives(" DB -1,-256,255,65280\n", "FF00FF00");
         gives(" DW 1,'a',$,$\n", "0100610000010001");
         gives("X DB 9\n DB 1,$-256\n", "090101");
@@ -280,6 +281,7 @@ public final class AssemblerTest {
         gives(" JMP x1\nX1: NOP\n", "C3030100");
         gives("abc EQU 3\n DB ABC,Abc\n", "0303");
         gives("B EQU 4\n MVI B,B\n LXI B,B\n", "0604010400");
+        gives("ABCDEFGH NOP\nABCDEFG NOP\n JMP ABCDEFGH\n JMP ABCDEFG\n", "0000C30001C30101");
         fault("X NOP\n^X NOP\n");
         fault("X NOP\n^x: EQU 5\n");
         fault(" JMP ^NONE\n");

@@ -15,6 +15,7 @@ public final class CallsTest {
         sequential();
         extents();
         nextInEntryZero();
+        lastPlaces();
         random();
         sizes();
         errors();
@@ -59,6 +60,8 @@ public final class CallsTest {
         Kit.due("6, 255", Kit.result(b, 6, 255), 'c');
         Kit.due("6, 255 without", Kit.result(b, 6, 255), 0);
         Kit.due("6, 254 without", Kit.result(b, 6, 254), 0);
+        Kit.type(b, "\u00e3");
+        Kit.due("6, 255 without 128", Kit.result(b, 6, 255), 'c');
         Kit.due("not told back", Kit.told(b), "");
         Kit.due("6, sign", Kit.result(b, 6, 0xC4), 0);
         Kit.due("told", Kit.told(b), "D");
@@ -365,6 +368,46 @@ public final class CallsTest {
         Kit.due("40 fills", file(b, 40), 0);
         Kit.due("its block", b.memory(FCB + 31), 3);
         Kit.due("and no other", b.disk(0, 3, 1 + (6 * 6) % 26, 0, 0), 0xE5);
+    }
+
+    /** The last block, the last extent, and what call 13 tells anew. */
+    private static void lastPlaces() {
+        MonitorBoard b = withData();
+        Kit.fcb(b, FCB, 0, "LAST", "");
+        Kit.put(b, FCB + 33, 1, 0, 0);
+        Kit.put(b, FCB + 12, 30);
+        Kit.due("34 makes entry 0", file(b, 34), 0);
+        Kit.due("entry 0", dir(b, 0, 0, 12), 0);
+        Kit.due("entry 1 is free", dir(b, 0, 1, 0), 0xE5);
+        fill(b, 'z');
+        Kit.put(b, FCB + 16, 242);
+        Kit.due("write to 242", file(b, 34), 0);
+        Kit.due("there", b.disk(0, 76, 1 + (6 * 13 + 1) % 26, 5, 0), 'z');
+        fill(b, 0);
+        Kit.due("read of 242", file(b, 33), 0);
+        Kit.due("it", b.memory(DATA), 'z');
+        file(b, 16);
+        Kit.call(b, 0, 0);
+        String dump = Kit.line(b, "DUMP LAST");
+        Kit.due("two records", dump.length(), 16 * 54 + 4);
+        Kit.due("the second", dump.substring(8 * 54, 8 * 54 + 9), "\r\n0080 7A");
+        Kit.result(b, 26, DATA);
+        Kit.put(b, FCB + 12, 30);
+        Kit.put(b, FCB + 32, 128);
+        Kit.due("extent 31 is made", file(b, 21), 0);
+        Kit.due("EX", b.memory(FCB + 12), 31);
+        Kit.fcb(b, FCB, 0, "LAST", "");
+        Kit.put(b, FCB + 12, 33);
+        Kit.due("16 modulo 32", file(b, 16), 255);
+        Kit.put(b, FCB + 12, 32);
+        Kit.due("16 modulo 32", file(b, 16), 0);
+        Kit.due("RC", dir(b, 0, 0, 15), 0);
+        b.disk(0, 2, 1, 16, 50);
+        Kit.result(b, 27, 0);
+        Kit.due("not told anew", b.memory(61472 + 6), 0);
+        Kit.result(b, 13, 0);
+        Kit.result(b, 27, 0);
+        Kit.due("told anew", b.memory(61472 + 6), 0x20);
     }
 
     private static void deleteRename() {

@@ -63,6 +63,10 @@ public final class ListTest {
         }
         Kit.put(b, 2000, 0x76, 0, 0xC9, 0x77, 0xC0, 0xE9);
         Kit.due("HLT", listed(b, 2000), "HLT");
+        Kit.put(b, 3000, 0x3E, 0x9F, 0xC3, 0x00, 0x9A, 0xC3, 0, 0xA0);
+        Kit.due("9 is no letter", listed(b, 3000), "MVI A,9FH");
+        Kit.due("9 is no letter", listed(b, 3002), "JMP 9A00H");
+        Kit.due("A is one", listed(b, 3005), "JMP 0A000H");
         Kit.due("NOP", listed(b, 2001), "NOP");
         Kit.due("RET", listed(b, 2002), "RET");
         Kit.due("MOV", listed(b, 2003), "MOV M,A");

@@ -215,6 +215,8 @@ public final class ProcessorTest {
             execute(0, 0xD4, 0x8001, 0x01 | p << 4, 0xFF, 0x7F, 0x09 | p << 4);
             Kit.due("DAD " + p, pair(2), p == 2 ? 0xFFFE : 0);
             Kit.due("CY alone", board.register(6), p == 2 ? 0xD6 : 0xD7);
+            execute(0, 1, 0x7FFF, 0x01 | p << 4, p == 2 ? 0xFF : 0x00, p == 2 ? 0x7F : 0x80, 0x09 | p << 4);
+            Kit.due("no carry at 65535", board.register(6) & 1, 0);
             execute(0, 1, 0x0001, 0x09 | p << 4);
             Kit.due("no carry", board.register(6) & 1, 0);
         }

@@ -16,6 +16,7 @@ public final class ShellTest {
         load();
         longFiles();
         space();
+        allExtents();
         errors();
         Kit.finish();
     }
@@ -101,6 +102,7 @@ public final class ShellTest {
         Kit.due("register", b.register(10), 1);
         Kit.due("user", Kit.line(b, "USER 15"), "\r\nB15>");
         Kit.due("register", b.register(11), 15);
+        Kit.due("user", Kit.line(b, "USER 9"), "\r\nB9>");
         Kit.due("user", Kit.line(b, "USER 007"), "\r\nB7>");
         Kit.due("A:", Kit.line(b, " A: "), "\r\nA7>");
         Kit.due("user", Kit.line(b, "USER 0"), "\r\nA>");
@@ -282,6 +284,12 @@ public final class ShellTest {
         Kit.due("bytes come", b.memory(0x200), 0xAB);
         Kit.due("bytes come", b.memory(0x180), 7);
         Kit.due("others 0", b.memory(0x100), 0);
+        makeHex(b, "H", ":01017F00007F\r\n:00000001FF");
+        says(b, "HEXLOAD H", "");
+        says(b, "STAT H.COM", "\r\nH        COM 1 1k");
+        makeHex(b, "H", ":01018000007E\r\n:00000001FF");
+        says(b, "HEXLOAD H", "");
+        says(b, "STAT H.COM", "\r\nH        COM 2 1k");
         MonitorBoard c = new MonitorBoard();
         makeHex(c, "L", ":01E3FF00AA73\r\n:00000001FF");
         says(c, "HEXLOAD L", "");
@@ -412,6 +420,31 @@ public final class ShellTest {
         says(c, "SAVE 0 F9", "");
         says(c, "SAVE 65 F9", "\r\nNo space");
         says(c, "STAT F9", "\r\nF9           128 16k");
+    }
+
+    /** All 32 extents are read, and no more. */
+    private static void allExtents() {
+        MonitorBoard b = new MonitorBoard();
+        StringBuilder keys = new StringBuilder();
+        for (int i = 0; i < 33; i++) {
+            keys.append("SAVE 1 F").append(i).append("\r");
+        }
+        Kit.type(b, keys.toString());
+        b.run(1000);
+        for (int e = 0; e < 33; e++) {
+            int sector = 1 + 6 * (e / 4) % 26;
+            if (e > 0) {
+                b.disk(0, 2, sector, e % 4 * 32 + 12, e);
+            }
+            int tens = e < 10 ? ' ' : '0' + e % 10;
+            int ones = e < 10 ? '0' + e : '0' + e / 10;
+            b.disk(0, 2, sector, e % 4 * 32 + 2, ones ^ 'X');
+            b.disk(0, 2, sector, e % 4 * 32 + 3, tens ^ 'Y');
+        }
+        Kit.type(b, "DUMP FXY\r");
+        b.run(200000);
+        Kit.due("32 extents of two records", b.states(), 32 * 256);
+        says(b, "STAT FXY", "\r\nFXY          4098 33k");
     }
 
     private static void errors() {
