@@ -26,6 +26,8 @@ public final class MonitorBoard {
     private static final int ENTRIES = 64;
     private static final int ENTRY_SIZE = 32;
     private static final int FCB_SIZE = 36;
+    /** Behind the directory. */
+    private static final int FIRST_BLOCK = 2;
     private static final int LAST_BLOCK = 242;
     private static final int BLOCKS = 243;
     private static final int BLOCK_RECORDS = 8;
@@ -957,9 +959,8 @@ public final class MonitorBoard {
         /** Where the records of the blocks lie on a drive, in their order. */
         final int[] recordAt = new int[BLOCKS * BLOCK_RECORDS];
         final boolean[] used = new boolean[2 * BLOCKS];
-        /** The FCB and the data of the call at hand; the monitor carries them from and to memory. */
+        /** The FCB of the call at hand; the monitor carries it from and to memory. */
         final int[] fcb = new int[FCB_SIZE];
-        final byte[] record = new byte[RECORD];
         final int[] sought = new int[FCB_SIZE];
         int soughtDrive;
         /** The entry from which call 18 goes on; ENTRIES when there is nothing more to be found. */
@@ -971,7 +972,8 @@ public final class MonitorBoard {
         int user;
         /** The drive that the call goes to; of an error also one that there is not. */
         int drive;
-        boolean fetched;
+        /** Where the record lies whose bytes are to be carried from or to the data; -1 when none is. */
+        int carried;
 
         Files() {
             Arrays.fill(surface, (byte) FREE);
@@ -1008,7 +1010,7 @@ public final class MonitorBoard {
             }
             logged |= 1 << d;
             for (int block = 0; block < BLOCKS; block++) {
-                used[d * BLOCKS + block] = block < 2;
+                used[d * BLOCKS + block] = block < FIRST_BLOCK;
             }
             for (int e = 0; e < ENTRIES; e++) {
                 int place = entryPlace(d, e);
@@ -1018,10 +1020,11 @@ public final class MonitorBoard {
             }
         }
 
+        /** The directory's own blocks stay in use, whatever an entry tells. */
         private void setUse(int d, int place, boolean on) {
             for (int k = 16; k < ENTRY_SIZE; k++) {
                 int block = surface[place + k] & 255;
-                if (block > 0 && block <= LAST_BLOCK) {
+                if (block >= FIRST_BLOCK && block <= LAST_BLOCK) {
                     used[d * BLOCKS + block] = on;
                 }
             }
@@ -1044,7 +1047,7 @@ public final class MonitorBoard {
                 boolean same = (surface[place] & 255) == user
                     && (extent == ANY || (surface[place + 12] & 255) == extent);
                 for (int k = 1; k < 12 && same; k++) {
-                    same = wild && like[k] == EVERY || ((like[k] ^ surface[place + k]) & 127) == 0;
+                    same = wild && (like[k] & 127) == EVERY || ((like[k] ^ surface[place + k]) & 127) == 0;
                 }
                 if (same) {
                     return e;
@@ -1055,7 +1058,7 @@ public final class MonitorBoard {
 
         /** One of the calls that have an FCB, or 18: its result or an error. */
         int perform(int number) {
-            fetched = false;
+            carried = -1;
             if (number == 36) {
                 return setPlace(fcb[12] * EXTENT_RECORDS + fcb[32]);
             }
@@ -1189,9 +1192,7 @@ public final class MonitorBoard {
                 entry = find(sought, soughtDrive, extent, soughtNext, true);
             }
             if (entry >= 0) {
-                int place = soughtDrive * DRIVE_SIZE + recordAt[entry >> 2];
-                System.arraycopy(surface, place, record, 0, RECORD);
-                fetched = true;
+                carried = soughtDrive * DRIVE_SIZE + recordAt[entry >> 2];
             }
             soughtNext = entry < 0 ? ENTRIES : entry + 1;
             return numberOf(entry);
@@ -1269,19 +1270,17 @@ public final class MonitorBoard {
 
         private int readNext() {
             if (fcb[32] == EXTENT_RECORDS) {
-                if (openExtent(fcb[12] + 1) < 0) {
+                int next = fcb[12] + 1;
+                if (next > LAST_EXTENT || openExtent(next) < 0) {
                     return 1;
                 }
                 fcb[32] = 0;
             }
-            int answer = fetchRecord();
-            if (answer == 0) {
-                fcb[32]++;
-            }
-            return answer;
+            return seekRecord();
         }
 
-        int writeNext() {
+        /** Behind an answer 0 the data are to be carried, then grow() is due. */
+        private int writeNext() {
             if (fcb[32] > EXTENT_RECORDS) {
                 return 1;
             }
@@ -1293,11 +1292,7 @@ public final class MonitorBoard {
                 }
                 fcb[32] = 0;
             }
-            int answer = putRecord(false);
-            if (answer == 0) {
-                fcb[32]++;
-            }
-            return answer;
+            return placeRecord(false);
         }
 
         /** Calls 33, 34 and 40. */
@@ -1325,10 +1320,10 @@ public final class MonitorBoard {
             if (answer != 0) {
                 return answer;
             }
-            return number == 33 ? fetchRecord() : putRecord(number == 40);
+            return number == 33 ? seekRecord() : placeRecord(number == 40);
         }
 
-        private int fetchRecord() {
+        private int seekRecord() {
             int cr = fcb[32];
             if (cr >= EXTENT_RECORDS || cr >= fcb[15]) {
                 return 1;
@@ -1337,13 +1332,11 @@ public final class MonitorBoard {
             if (block == 0 || block > LAST_BLOCK) {
                 return 1;
             }
-            int place = drive * DRIVE_SIZE + recordAt[block * BLOCK_RECORDS + cr % BLOCK_RECORDS];
-            System.arraycopy(surface, place, record, 0, RECORD);
-            fetched = true;
+            carried = drive * DRIVE_SIZE + recordAt[block * BLOCK_RECORDS + cr % BLOCK_RECORDS];
             return 0;
         }
 
-        private int putRecord(boolean cleared) {
+        private int placeRecord(boolean cleared) {
             int cr = fcb[32];
             if (cr >= EXTENT_RECORDS) {
                 return 1;
@@ -1356,17 +1349,34 @@ public final class MonitorBoard {
             if (block == 0 || block > LAST_BLOCK) {
                 return 2;
             }
-            int place = drive * DRIVE_SIZE + recordAt[block * BLOCK_RECORDS + cr % BLOCK_RECORDS];
-            System.arraycopy(record, 0, surface, place, RECORD);
+            carried = drive * DRIVE_SIZE + recordAt[block * BLOCK_RECORDS + cr % BLOCK_RECORDS];
+            return 0;
+        }
+
+        /** What a record that was written makes of RC and, of call 21, CR. */
+        void grow(boolean onward) {
+            int cr = fcb[32];
             if (fcb[15] <= cr) {
                 fcb[15] = cr + 1;
             }
-            return 0;
+            if (onward) {
+                fcb[32] = cr + 1;
+            }
+        }
+
+        /** The next record of the file that the command line writes. */
+        boolean append(byte[] from, int at) {
+            if (writeNext() != 0) {
+                return false;
+            }
+            System.arraycopy(from, at, surface, carried, RECORD);
+            grow(true);
+            return true;
         }
 
         /** The least block that is not in use; 0 without one. */
         private int newBlock(boolean cleared) {
-            for (int block = 1; block < BLOCKS; block++) {
+            for (int block = FIRST_BLOCK; block < BLOCKS; block++) {
                 if (!used[drive * BLOCKS + block]) {
                     used[drive * BLOCKS + block] = true;
                     for (int k = 0; k < BLOCK_RECORDS && cleared; k++) {
@@ -1452,7 +1462,6 @@ public final class MonitorBoard {
         final Processor processor;
         final Console console;
         final Files files;
-        final int[] before = new int[FCB_SIZE];
         int data;
         int drive;
         int track;
@@ -1616,7 +1625,12 @@ public final class MonitorBoard {
             if (!Files.isSector(track, sector)) {
                 return 1;
             }
-            int place = Files.sectorPlace(drive, track, sector);
+            carryRecord(Files.sectorPlace(drive, track, sector), writes);
+            return 0;
+        }
+
+        /** Between a place on the drives and the data. */
+        private void carryRecord(int place, boolean writes) {
             for (int i = 0; i < RECORD; i++) {
                 if (writes) {
                     files.surface[place + i] = (byte) processor.peek(data + i);
@@ -1624,7 +1638,6 @@ public final class MonitorBoard {
                     processor.poke(data + i, files.surface[place + i]);
                 }
             }
-            return 0;
         }
 
         private static boolean hasFcb(int number) {
@@ -1634,27 +1647,29 @@ public final class MonitorBoard {
         private int callFiles(int number) {
             int at = processor.pair(1);
             for (int k = 0; k < FCB_SIZE; k++) {
-                before[k] = processor.peek(at + k);
-                files.fcb[k] = before[k];
-            }
-            if (number == 21 || number == 34 || number == 40) {
-                for (int i = 0; i < RECORD; i++) {
-                    files.record[i] = (byte) processor.peek(data + i);
-                }
+                files.fcb[k] = processor.peek(at + k);
             }
             int answer = files.perform(number);
-            if (files.fetched) {
-                for (int i = 0; i < RECORD; i++) {
-                    processor.poke(data + i, files.record[i]);
-                }
+            // The FCB is in memory ahead of the data, which may lie over it.
+            putFcb(at);
+            if (files.carried < 0) {
+                return answer;
             }
-            // Only what changed goes back, so that data which lie over the FCB stay.
-            for (int k = 0; k < FCB_SIZE; k++) {
-                if (files.fcb[k] != before[k]) {
-                    processor.poke(at + k, files.fcb[k]);
-                }
+            boolean writes = number == 21 || number == 34 || number == 40;
+            carryRecord(files.carried, writes);
+            if (writes) {
+                files.grow(number == 21);
+                putFcb(at);
+            } else if (number == 20) {
+                processor.poke(at + 32, processor.peek(at + 32) + 1);
             }
             return answer;
+        }
+
+        private void putFcb(int at) {
+            for (int k = 0; k < FCB_SIZE; k++) {
+                processor.poke(at + k, files.fcb[k]);
+            }
         }
 
         private int callBoard(int number, int de) {
@@ -2319,10 +2334,7 @@ public final class MonitorBoard {
         private int writeFromMemory(int records) {
             int outcome = DONE;
             for (int n = 0; n < records && outcome == DONE; n++) {
-                for (int i = 0; i < RECORD; i++) {
-                    files.record[i] = (byte) processor.peek(PROGRAM + n * RECORD + i);
-                }
-                if (files.writeNext() != 0) {
+                if (!files.append(processor.store, PROGRAM + n * RECORD)) {
                     outcome = NO_SPACE;
                 }
             }
@@ -2360,8 +2372,7 @@ public final class MonitorBoard {
                 return outcome;
             }
             for (int n = 0; n < TURNS_MOST && outcome == DONE && reader.advance(); n++) {
-                System.arraycopy(reader.record, 0, files.record, 0, RECORD);
-                if (files.writeNext() != 0) {
+                if (!files.append(reader.record, 0)) {
                     outcome = NO_SPACE;
                 }
             }
