@@ -1281,9 +1281,6 @@ public final class MonitorBoard {
 
         /** Behind an answer 0 the data are to be carried, then grow() is due. */
         private int writeNext() {
-            if (fcb[32] > EXTENT_RECORDS) {
-                return 1;
-            }
             if (fcb[32] == EXTENT_RECORDS) {
                 closeExtent();
                 int next = fcb[12] + 1;

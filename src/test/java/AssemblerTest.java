@@ -14,6 +14,8 @@ public final class AssemblerTest {
         faults();
         order();
         limits();
+        cutTexts();
+        fullTapes();
         Kit.finish();
     }
 
@@ -218,6 +220,10 @@ public final class AssemblerTest {
         fault(" DB 'ab'^+1\n");
         fault(" DB 'a^\tb'\n");
         fault(" DB 'ab^\u0080'\n");
+        fault(" DB 'ab^\u007f'\n");
+        fault(" DB 'ab^\u001f'\n");
+        fault(" DB '^\u007f'\n");
+        fault(" MVI A,'^\u007f'\n");
         fault(" DB ('a^b')\n");
         fault(" DB 1,^\n");
         fault(" DB ^,1\n");
@@ -258,6 +264,17 @@ public final class AssemblerTest {
         fault(" ORG 58368\n ^NOP\n");
         fault(" ORG 58366\nX ^JMP X\n");
         fault(" ORG 58367\n ^DW 5\n");
+        Kit.due("a last word", count(" ORG 58366\n DW 5\n"), 58112);
+        Kit.due("a last text", count(" ORG 58366\n DB 'ab'\n"), 58112);
+        Kit.due("a last code", count(" ORG 58365\n JMP 5\n"), 58112);
+        Kit.due("a last code", count(" ORG 58365\n LXI H,5\n"), 58112);
+        Kit.due("a last code", count(" ORG 58366\n MVI M,5\n"), 58112);
+        Kit.due("a last code", count(" ORG 58366\n OUT 5\n"), 58112);
+        Kit.due("a last code", count(" ORG 58367\n MOV A,B\n"), 58112);
+        Kit.due("a last code", count(" ORG 58367\n RST 1\n"), 58112);
+        fault(" ORG 58366\n ^LXI H,5\n");
+        fault(" ORG 58367\n ^MVI M,5\n");
+        fault(" ORG 58368\n ^INR M\n");
         fault(" ORG 58366\n DB 'ab'\n ^DB 'ab'\n");
         fault(" ORG 58367\n ^DB 1,2,)\n");
         fault(" ORG 58366\n DB 1,2^)\n");
@@ -280,6 +297,13 @@ public final class AssemblerTest {
     private static void labels() {
         gives(" JMP x1\nX1: NOP\n", "C3030100");
         gives("abc EQU 3\n DB ABC,Abc\n", "0303");
+        gives("z EQU 3\nZz90: DB Z,zZ90/256\n", "0301");
+        gives("a09z DB 1\n DB A09Z-255\n", "0101");
+        fault("a{ NOP\n".replace("{", "^{"));
+        fault("a@ NOP\n".replace("@", "^@"));
+        fault("a[ NOP\n".replace("[", "^["));
+        fault("a` NOP\n".replace("`", "^`"));
+        fault("a/ NOP\n".replace("/", "^/"));
         gives("B EQU 4\n MVI B,B\n LXI B,B\n", "0604010400");
         gives("ABCDEFGH NOP\nABCDEFG NOP\n JMP ABCDEFGH\n JMP ABCDEFG\n", "0000C30001C30101");
         fault("X NOP\n^X NOP\n");
@@ -361,5 +385,38 @@ public final class AssemblerTest {
         board.end(6);
         Kit.due("nor here", board.assemble(), -1 - 6);
         Kit.due("an empty tape", board.assemble(), 0);
+    }
+
+    /** Each beginning of a text gives the same, whatever stands behind the tape's end. */
+    private static void cutTexts() {
+        String text = "LAB1: MOV A,M ;x\r\n DB 'a''b',12H,-LAB1/256\nX2 EQU (1+2)*3\r\n LXI SP,X2\n DS 2\n ORG 300\n"
+            + " PUSH PSW\n RST 7\n DW $,'c',X2\n END ";
+        for (int n = 0; n <= text.length(); n++) {
+            MonitorBoard one = new MonitorBoard();
+            Kit.tape(one, text);
+            one.end(n);
+            MonitorBoard other = new MonitorBoard();
+            Kit.tape(other, text.substring(0, n));
+            int count = one.assemble();
+            Kit.due("the first " + n, count, other.assemble());
+            Kit.due("its bytes", Kit.hex(one, Math.max(count, 0)), Kit.hex(other, Math.max(count, 0)));
+        }
+    }
+
+    /** Texts that end with the tape. */
+    private static void fullTapes() {
+        String[] ends = {"X", "LABEL", " JMP X", " MOV A", " MOV A,", " DB 'a", " DB '", " DB 'a'", " DB 'ab'", " DB ''", " DW 12",
+            " DW 12H", " DW (1", " DW 1+", " DW -", " DW $", " DB 1,", ";", " ", "\t", "\r", "\r\n", "X:", " PUSH PSW", " END"};
+        int[] due = {0, 0, -1, -1, -1, -1, -1, 1, 2, -1, 2, 2, -1, -1, -1, 2, -1, 0, 0, 0, -1, 0, 0, 1, 0};
+        for (int i = 0; i < ends.length; i++) {
+            String text = "\n".repeat(4000 - ends[i].length()) + ends[i];
+            MonitorBoard b = new MonitorBoard();
+            Kit.tape(b, text);
+            int count = b.assemble();
+            Kit.due("ends with " + Kit.shown(ends[i]), Math.max(count, -1), due[i]);
+            if (due[i] < 0) {
+                Kit.due("its place " + count, count <= -1 - 4000 + ends[i].length() && count >= -1 - 4000, true);
+            }
+        }
     }
 }

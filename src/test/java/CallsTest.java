@@ -21,6 +21,8 @@ public final class CallsTest {
         errors();
         readOnly();
         users();
+        logsIn();
+        oneFileInAllEntries();
         Kit.finish();
     }
 
@@ -468,6 +470,7 @@ public final class CallsTest {
         Kit.due("block 3", b.memory(FCB + 17), 3);
         Kit.due("not closed", dir(b, 1, 0, 15), 0);
         Kit.due("record 16 of track 2", b.disk(1, 2, 20, 0, 0), 'a');
+        Kit.due("21 fills none", b.disk(1, 3, 1 + 6 * 5 % 26, 0, 0), 0xE5);
         file(b, 16);
         Kit.due("closed", dir(b, 1, 0, 15), 9);
         Kit.due("block", dir(b, 1, 0, 17), 3);
@@ -685,12 +688,72 @@ public final class CallsTest {
             Kit.due("call " + number, Kit.told(b), "\r\nBdos Err On A: R/O\r\nA>");
         }
         Kit.due("16 without a change", file(b, 16), 0);
+        b.disk(0, 2, 1, 15, 200);
+        b.disk(0, 2, 1, 31, 7);
+        Kit.put(b, FCB + 15, 200);
+        Kit.put(b, FCB + 31, 7);
+        Kit.due("16 without a change of bytes that are not 0", file(b, 16), 0);
+        Kit.put(b, FCB + 31, 6);
+        Kit.told(b);
+        Kit.call(b, 16, FCB);
+        Kit.due("16 with another last byte", Kit.told(b), "\r\nBdos Err On A: R/O\r\nA>");
+        Kit.put(b, FCB + 31, 7);
         Kit.put(b, FCB + 15, 1);
         Kit.told(b);
         Kit.call(b, 16, FCB);
         Kit.due("16 with one", Kit.told(b), "\r\nBdos Err On A: R/O\r\nA>");
         Kit.due("17", file(b, 17), 0);
         Kit.due("15", file(b, 15), 0);
+    }
+
+    /** Each call LOGS the drive in that it goes to. */
+    private static void logsIn() {
+        for (int number : new int[] {15, 16, 17, 19, 20, 21, 22, 23, 30, 33, 34, 35, 40}) {
+            MonitorBoard b = withData();
+            b.disk(1, 2, 1, 0, 0xE5 ^ 9);
+            b.disk(1, 2, 1, 16, 0xE5 ^ 2);
+            Kit.fcb(b, FCB, 2, "X", "");
+            file(b, number);
+            Kit.due("B is LOGGED in by " + number, Kit.result(b, 24, 0), 3);
+            Kit.due("A stays at hand", b.register(10), 0);
+            Kit.result(b, 14, 1);
+            Kit.result(b, 27, 0);
+            int taken = number == 21 || number == 34 || number == 40 ? 0xF0 : 0xE0;
+            Kit.due("BLOCKS in USE of B", b.memory(61472), taken);
+        }
+        MonitorBoard b = withData();
+        Kit.fcb(b, FCB, 2, "X", "");
+        file(b, 36);
+        Kit.due("36 goes to none", Kit.result(b, 24, 0), 1);
+    }
+
+    /** Sixty-four ENTRIES of one name: each call goes by all of them. */
+    private static void oneFileInAllEntries() {
+        MonitorBoard b = new MonitorBoard();
+        Kit.fcb(b, FCB, 0, "ALL", "");
+        Kit.runProgram(b, " LXI SP,4000H\n MVI B,64\n XRA A\nL: PUSH B\n STA 300CH\n PUSH PSW\n LXI D,3000H\n MVI C,22\n CALL 5\n"
+            + " POP PSW\n INR A\n POP B\n DCR B\n JNZ L\n HLT\n");
+        Kit.due("the last one's EX", dir(b, 0, 63, 12), 31);
+        b.disk(0, 2, 14, 96 + 15, 5);
+        file(b, 35);
+        Kit.due("35", Kit.word(b, FCB + 33), 31 * 128 + 5);
+        Kit.put(b, FCB + 9, 0x20, 0xA0);
+        Kit.due("30", file(b, 30), 0);
+        Kit.due("of the first", dir(b, 0, 0, 10), 0xA0);
+        Kit.due("of the last", dir(b, 0, 63, 10), 0xA0);
+        Kit.put(b, FCB + 16, 1);
+        Kit.put(b, FCB + 17, "NEW     TYP\u0055");
+        Kit.due("23", file(b, 23), 0);
+        for (int e = 0; e < 64; e += 21) {
+            Kit.due("its name", dir(b, 0, e, 1), 'N');
+            Kit.due("its type", dir(b, 0, e, 11), 'P');
+            Kit.due("its EX stays", dir(b, 0, e, 12), e % 32);
+        }
+        Kit.fcb(b, FCB, 0, "NEW", "TYP");
+        Kit.due("19", file(b, 19), 0);
+        for (int e = 0; e < 64; e++) {
+            Kit.due("free", dir(b, 0, e, 0), 0xE5);
+        }
     }
 
     private static void users() {

@@ -3,6 +3,7 @@ public final class ListTest {
     public static void main(String[] args) {
         disk();
         list();
+        everyCode();
         listAndAssemble();
         hex();
         Kit.finish();
@@ -72,6 +73,65 @@ public final class ListTest {
         Kit.due("MOV", listed(b, 2003), "MOV M,A");
         Kit.due("RNZ", listed(b, 2004), "RNZ");
         Kit.due("PCHL", listed(b, 2005), "PCHL");
+    }
+
+    private static String due(int code) {
+        String[] registers = {"B", "C", "D", "E", "H", "L", "M", "A"};
+        String[] pairs = {"B", "D", "H", "SP"};
+        String[] conditions = {"NZ", "Z", "NC", "C", "PO", "PE", "P", "M"};
+        String[] sums = {"ADD", "ADC", "SUB", "SBB", "ANA", "XRA", "ORA", "CMP"};
+        String[] sumsOfBytes = {"ADI", "ACI", "SUI", "SBI", "ANI", "XRI", "ORI", "CPI"};
+        String[] turns = {"RLC", "RRC", "RAL", "RAR", "DAA", "CMA", "STC", "CMC"};
+        String[] carried = {"STAX B", "LDAX B", "STAX D", "LDAX D", "SHLD w", "LHLD w", "STA w", "LDA w"};
+        String[] returns = {"RET", "", "PCHL", "SPHL"};
+        String[] specials = {"JMP w", "", "OUT b", "IN b", "XTHL", "XCHG", "DI", "EI"};
+        int d = code >> 3 & 7;
+        int p = code >> 4 & 3;
+        boolean odd = (d & 1) != 0;
+        if (code >= 0x40 && code < 0x80) {
+            return code == 0x76 ? "HLT" : "MOV " + registers[d] + "," + registers[code & 7];
+        }
+        if (code >= 0x80 && code < 0xC0) {
+            return sums[d] + " " + registers[code & 7];
+        }
+        if (code < 0x40) {
+            switch (code & 7) {
+                case 0: return code == 0 ? "NOP" : "";
+                case 1: return odd ? "DAD " + pairs[p] : "LXI " + pairs[p] + ",w";
+                case 2: return carried[d];
+                case 3: return (odd ? "DCX " : "INX ") + pairs[p];
+                case 4: return "INR " + registers[d];
+                case 5: return "DCR " + registers[d];
+                case 6: return "MVI " + registers[d] + ",b";
+                default: return turns[d];
+            }
+        }
+        pairs[3] = "PSW";
+        switch (code & 7) {
+            case 0: return "R" + conditions[d];
+            case 1: return odd ? returns[p] : "POP " + pairs[p];
+            case 2: return "J" + conditions[d] + " w";
+            case 3: return specials[d];
+            case 4: return "C" + conditions[d] + " w";
+            case 5: return !odd ? "PUSH " + pairs[p] : code == 0xCD ? "CALL w" : "";
+            case 6: return sumsOfBytes[d] + " b";
+            default: return "RST " + d;
+        }
+    }
+
+    private static void everyCode() {
+        MonitorBoard b = null;
+        for (int code = 0; code < 256; code++) {
+            if (code % 64 == 0) {
+                b = new MonitorBoard();
+            }
+            Kit.put(b, 700, code, 0xB5, 0x40);
+            String due = due(code).replace(" b", " 0B5H").replace(",b", ",0B5H").replace("w", "40B5H");
+            if (due.isEmpty()) {
+                due = String.format(code > 0x9F ? "DB 0%02XH" : "DB %02XH", code);
+            }
+            Kit.due("code " + code, listed(b, 700), due);
+        }
     }
 
     /** What is listed of each code assembles to it again. */

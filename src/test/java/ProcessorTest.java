@@ -144,10 +144,11 @@ public final class ProcessorTest {
         }
         int due = operation == 7 ? a : value;
         String what = "operation " + operation + " of " + a + " and " + other + " with " + carry;
-        execute(a, carry, 0x1000, 0xC6 | operation << 3, other);
+        int before = other % 2 == 0 ? 0xD4 : 0;
+        execute(a, carry | before, 0x1000, 0xC6 | operation << 3, other);
         Kit.due(what, board.register(7), due);
         Kit.due("flags of " + what, board.register(6), shape(value) + half + out);
-        execute(a, carry, 0x1000, 0x36, other, 0x86 | operation << 3);
+        execute(a, carry | before, 0x1000, 0x36, other, 0x86 | operation << 3);
         Kit.due(what + " of M", board.register(7), due);
         Kit.due("flags of " + what + " of M", board.register(6), shape(value) + half + out);
     }
@@ -157,10 +158,10 @@ public final class ProcessorTest {
             for (int carry = 0; carry < 2; carry++) {
                 int up = (value + 1) % 256;
                 int down = (value + 255) % 256;
-                execute(value, carry, 0, 0x3C);
+                execute(value, carry | 0xD4, 0, 0x3C);
                 Kit.due("INR " + value, board.register(7), up);
                 Kit.due("its flags", board.register(6), shape(up) + (up % 16 == 0 ? 16 : 0) + carry);
-                execute(value, carry, 0, 0x3D);
+                execute(value, carry | 0xD4, 0, 0x3D);
                 Kit.due("DCR " + value, board.register(7), down);
                 Kit.due("its flags", board.register(6), shape(down) + (down % 16 == 15 ? 0 : 16) + carry);
             }
@@ -225,6 +226,10 @@ public final class ProcessorTest {
         Kit.due("XCHG", pair(1), 0x1111);
         execute(0, 0, 0x2345, 0xF9);
         Kit.due("SPHL", board.register(8), 0x2345);
+        Kit.put(board, 0x2345, 0x76);
+        execute(0, 0, 0x2345, 0xE9, 0x76);
+        Kit.due("PCHL", board.register(9), 0x2346);
+        Kit.due("SP stays", board.register(8), 0x3000);
     }
 
     private static void moves() {

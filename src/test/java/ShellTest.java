@@ -14,6 +14,10 @@ public final class ShellTest {
         hexload();
         programs();
         load();
+        namesOfPrograms();
+        hexAgain();
+        logsIn();
+        fullDirectory();
         longFiles();
         space();
         allExtents();
@@ -346,8 +350,8 @@ public final class ShellTest {
     private static void showed(MonitorBoard b, String line, String first, String second, String tail) {
         Kit.type(b, line + "\r");
         Kit.due(line + " stops", b.run(1000), 2);
-        Kit.due(line + " first", Kit.memory(b, 92, 12), first);
-        Kit.due(line + " second", Kit.memory(b, 108, 12), second);
+        Kit.due(line + " first", Kit.memory(b, 92, 16), first + "\0\0\0\0");
+        Kit.due(line + " second", Kit.memory(b, 108, 16), second + "\0\0\0\0");
         Kit.due(line + " tail", Kit.memory(b, 128, tail.length() + 2), (char) tail.length() + tail + "\0");
         Kit.due("HL is SP", b.register(4) << 8 | b.register(5), 58366);
         for (int i : new int[] {0, 1, 2, 3, 7}) {
@@ -368,6 +372,88 @@ public final class ShellTest {
         Kit.put(b, 256, 0, 0);
         says(b, "MORE", "\r\nBad load");
         Kit.due("what came stays", b.memory(256), 'x');
+        b.disk(0, 2, 7, 3 * 32 + 15, 72 ^ 71);
+        says(b, "STAT MORE.COM", "\r\nMORE     COM 455 57k");
+        says(b, "MORE", "\r\nBad load");
+        Kit.due("the first behind them stays", b.memory(58368), 0);
+        b.disk(0, 2, 7, 3 * 32 + 15, 71 ^ 70);
+        Kit.put(b, 256, 0, 0);
+        Kit.type(b, "MORE\r");
+        b.run(1);
+        Kit.due("454 begin", b.register(9), 257);
+    }
+
+    /** Files whose names no program may have. */
+    private static void namesOfPrograms() {
+        MonitorBoard b = new MonitorBoard();
+        Kit.put(b, 256, 0xC9);
+        for (String name : new String[] {"A?.COM", ".COM", "A.X", "A.COX"}) {
+            says(b, "SAVE 1 " + name, "");
+        }
+        for (String line : new String[] {"A?", ".", "A:.", "A.X", "A.COX", "A", "A*"}) {
+            bad(b, line);
+        }
+        bad(b, "A: A");
+        says(b, "SAVE 1 A.COM", "");
+        says(b, "A", "");
+        says(b, "A.", "");
+        says(b, "A:A.", "");
+        bad(b, "A.COM");
+        bad(b, "A.*");
+    }
+
+    /** What a text that was refused left behind does not count for the next. */
+    private static void hexAgain() {
+        MonitorBoard b = new MonitorBoard();
+        for (String wrong : new String[] {":0101000077", ":01010000A", "\r", "\r\n", ":01"}) {
+            makeHex(b, "W", wrong);
+            makeHex(b, "G", ":0101000077" + "87\r\n:00000001FF");
+            says(b, "HEXLOAD W", "\r\nBad hex");
+            says(b, "HEXLOAD G", "");
+            Kit.due("its byte", b.memory(256), 0x77);
+        }
+    }
+
+    /** A command LOGS the drive in that it goes to. */
+    private static void logsIn() {
+        for (String line : new String[] {"DIR B:", "ERA B:X", "REN B:X=Y", "TYPE B:X", "SAVE 0 B:X", "DUMP B:X", "STAT B:X",
+            "COPY X=B:Y", "HEXLOAD B:X", "B:X"}) {
+            MonitorBoard b = new MonitorBoard();
+            Kit.line(b, line);
+            Kit.due("B is LOGGED in by " + line, Kit.result(b, 24, 0), 3);
+        }
+        MonitorBoard b = new MonitorBoard();
+        Kit.line(b, "SAVE 0 Y");
+        Kit.line(b, "COPY B:X=Y");
+        Kit.due("B is LOGGED in by COPY", Kit.result(b, 24, 0), 3);
+        for (String line : new String[] {"STAT", "DIR", "TYPE Y", "USER 0", "DIR C:", "TYPE B:?", "TYPE B:X Y", "REN A:X=B:X"}) {
+            MonitorBoard c = new MonitorBoard();
+            Kit.line(c, line);
+            Kit.due("B is not LOGGED in by " + line, Kit.result(c, 24, 0), 1);
+        }
+    }
+
+    /** All 64 ENTRIES are looked at by each command. */
+    private static void fullDirectory() {
+        MonitorBoard b = new MonitorBoard();
+        StringBuilder keys = new StringBuilder();
+        for (int i = 0; i < 64; i++) {
+            keys.append("SAVE 0 F").append(i).append("\r");
+        }
+        Kit.type(b, keys.toString());
+        b.run(10);
+        String all = Kit.line(b, "DIR");
+        Kit.due("the last one", all.endsWith(" : F63         \r\nA>"), true);
+        Kit.due("sixteen rows", all.length(), 16 * (5 + 4 * 12 + 3 * 3) + 4);
+        String sizes = Kit.line(b, "STAT *.*");
+        Kit.due("the last one", sizes.endsWith("\r\nF63          0 0k\r\nA>"), true);
+        Kit.due("64 rows", sizes.length(), 64 * 19 + 4);
+        says(b, "ERA *.*", "");
+        says(b, "DIR", "\r\nNo file");
+        for (int i = 0; i < 64; i++) {
+            int sector = 1 + (6 * (i / 4) + i / 52) % 26;
+            Kit.due("free " + i, b.disk(0, 2, sector, i % 4 * 32, 0), 0xE5);
+        }
     }
 
     /** A file of several extents, and one with an extent that is not full. */
