@@ -286,6 +286,7 @@ public final class AssemblerTest {
         fault(" DS ^58113\n");
         fault(" ^EQU 5\n");
         fault(" ^EQU\n");
+        fault("X NOP\n ^EQU 5\n");
         fault("X EQU ^\n");
         fault("X EQU ^X\n");
         fault("X ORG ^X\n");

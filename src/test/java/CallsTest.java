@@ -129,10 +129,25 @@ public final class CallsTest {
         Kit.due("3 boots", Kit.call(b, 10, 0x2000), 1);
         Kit.due("warm", Kit.told(b), "\r\nA>");
         Kit.due("at the command line", b.register(9), 60419);
+        twoLines();
         Kit.type(b, "\u008d");
         Kit.put(b, 0x2000, 255);
         Kit.due("keys without 128", Kit.result(b, 10, 0x2000), 0);
         Kit.due("none", b.memory(0x2001), 0);
+    }
+
+    /** A program that the command line began reads two lines: each begins anew. */
+    private static void twoLines() {
+        MonitorBoard b = new MonitorBoard();
+        Kit.program(b, " MVI C,10\n LXI D,2000H\n CALL 5\n MVI C,10\n LXI D,2100H\n CALL 5\n HLT\n");
+        Kit.line(b, "SAVE 1 TWO.COM");
+        Kit.put(b, 0x2000, 9, 77);
+        Kit.put(b, 0x2100, 2, 77);
+        Kit.type(b, "TWO\rfirst\rnext");
+        Kit.due("stops", b.run(10000), 2);
+        Kit.due("the first", Kit.memory(b, 0x2001, 6), "\5first");
+        Kit.due("the second", Kit.memory(b, 0x2101, 4), "\2ne\0");
+        Kit.due("two keys are left", b.keys(), 2);
     }
 
     private static void drives() {
@@ -179,7 +194,11 @@ public final class CallsTest {
         for (int i = 0; i < facts.length; i++) {
             Kit.due("fact " + i, b.memory(61504 + i), facts[i]);
         }
+        Kit.put(b, 61471, 0x99);
+        Kit.put(b, 61503, 0x99);
         Kit.due("27", Kit.result(b, 27, 0), 61472);
+        Kit.due("what is ahead", b.memory(61471), 0x99);
+        Kit.due("what is behind", b.memory(61503), 0x99);
         Kit.due("blocks 0, 1", b.memory(61472), 0xC0);
         for (int i = 1; i < 31; i++) {
             Kit.due("others", b.memory(61472 + i), 0);
@@ -311,6 +330,7 @@ public final class CallsTest {
             Kit.due("also free ones", file(b, 18), i % 4);
         }
         everyEntry();
+        searchOfB();
         Kit.due("37", Kit.result(b, 37, 3), 0);
         Kit.result(b, 14, 1);
         Kit.due("17 at A, at hand is B", file(b, 18), 2);
@@ -330,6 +350,24 @@ public final class CallsTest {
         Kit.fcb(b, FCB, 1, "??", "X");
         Kit.result(b, 32, 7);
         Kit.due("of this user", file(b, 17), 255);
+    }
+
+    private static void searchOfB() {
+        MonitorBoard b = withData();
+        Kit.fcb(b, FCB, 2, "ONB", "");
+        file(b, 22);
+        Kit.due("17 of B", file(b, 17), 0);
+        Kit.due("its record", Kit.memory(b, DATA + 1, 3), "ONB");
+        Kit.due("18", file(b, 18), 255);
+        Kit.put(b, FCB, 1);
+        Kit.due("17 of A", file(b, 17), 255);
+        Kit.put(b, FCB, '?');
+        Kit.due("17 of all of A", file(b, 17), 0);
+        Kit.due("free", b.memory(DATA), 0xE5);
+        Kit.result(b, 14, 1);
+        Kit.due("18 stays at A", file(b, 18), 1);
+        Kit.due("17 of all of B", file(b, 17), 0);
+        Kit.due("not free", b.memory(DATA), 0);
     }
 
     /** Sixty-four entries, then none. */
@@ -704,6 +742,25 @@ public final class CallsTest {
         Kit.due("16 with one", Kit.told(b), "\r\nBdos Err On A: R/O\r\nA>");
         Kit.due("17", file(b, 17), 0);
         Kit.due("15", file(b, 15), 0);
+        readOnlyB();
+    }
+
+    private static void readOnlyB() {
+        MonitorBoard b = withData();
+        Kit.fcb(b, FCB, 2, "X", "");
+        file(b, 22);
+        Kit.result(b, 14, 1);
+        Kit.result(b, 28, 0);
+        for (int number : new int[] {16, 19, 21, 22, 23, 30, 34, 40}) {
+            Kit.put(b, FCB + 15, 1);
+            Kit.told(b);
+            Kit.call(b, number, FCB);
+            Kit.due("call " + number, Kit.told(b), "\r\nBdos Err On B: R/O\r\nB>");
+        }
+        Kit.due("nothing came", dir(b, 1, 0, 15), 0);
+        Kit.put(b, FCB, 1);
+        Kit.due("A may be written", file(b, 22), 0);
+        Kit.due("16 too", file(b, 16), 0);
     }
 
     /** Each call LOGS the drive in that it goes to. */

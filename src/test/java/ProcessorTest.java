@@ -9,6 +9,7 @@ public final class ProcessorTest {
         steps();
         decimal();
         turns();
+        allTurns();
         pairs();
         moves();
         branches();
@@ -199,6 +200,24 @@ public final class ProcessorTest {
         }
     }
 
+    /** The four turns of every byte, with CY and without. */
+    private static void allTurns() {
+        for (int a = 0; a < 256; a += a % 8 == 0 ? 1 : 7) {
+            for (int carry = 0; carry < 2; carry++) {
+                turn(0x07, a, carry, a * 2 % 256 + a / 128, a / 128);
+                turn(0x0F, a, carry, a / 2 + a % 2 * 128, a % 2);
+                turn(0x17, a, carry, a * 2 % 256 + carry, a / 128);
+                turn(0x1F, a, carry, a / 2 + carry * 128, a % 2);
+            }
+        }
+    }
+
+    private static void turn(int code, int a, int carry, int due, int out) {
+        execute(a, carry, 0, code);
+        Kit.due("code " + code + " of " + a, board.register(7), due);
+        Kit.due("its flags", board.register(6), 2 + out);
+    }
+
     private static int pair(int p) {
         return p == 3 ? board.register(8) : board.register(2 * p) << 8 | board.register(2 * p + 1);
     }
@@ -285,7 +304,9 @@ public final class ProcessorTest {
             Kit.put(b, 256, 0x31, 0, 0x30, 0xC7 | n << 3);
             Kit.put(b, 8 * n, 0x76);
             b.jump(256);
+            long before = b.states();
             b.run(1000);
+            Kit.due("states of RST " + n, b.states() - before, 10 + 11 + 7);
             Kit.due("RST " + n, b.register(9), 8 * n + 1);
             Kit.due("its return", Kit.word(b, b.register(8)), 260);
         }

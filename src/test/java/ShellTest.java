@@ -123,6 +123,9 @@ public final class ShellTest {
         says(b, "DIR", "\r\nA: " + one + " : " + two + " : THREE       " + " : FOUR     X  "
             + "\r\nA: LONGNAME TYP");
         says(b, "DIR T*.*", "\r\nA: " + two + " : THREE       ");
+        says(b, "save 0 az.Zaz", "");
+        says(b, "dir a?.*", "\r\nA: AZ       ZAZ");
+        says(b, "era Az.zAZ", "");
         says(b, "DIR *.?", "\r\nA: THREE        : FOUR     X  ");
         says(b, "DIR *", "\r\nA: THREE       ");
         says(b, "DIR ONE.TXT", "\r\nA: " + one);
@@ -142,6 +145,12 @@ public final class ShellTest {
         Kit.line(b, "USER 0");
         Kit.line(b, "B:");
         Kit.due("from B", Kit.line(b, "DIR A:TWO.*"), "\r\nA: " + two + "\r\nB>");
+        Kit.due("of B", Kit.line(b, "DIR"), "\r\nNo file\r\nB>");
+        Kit.line(b, "SAVE 0 X");
+        Kit.due("of B", Kit.line(b, "DIR"), "\r\nB: X           \r\nB>");
+        Kit.due("no Y", Kit.line(b, "DIR Y"), "\r\nNo file\r\nB>");
+        Kit.due("no .X", Kit.line(b, "DIR .X"), "\r\nNo file\r\nB>");
+        Kit.due("all", Kit.line(b, "DIR ."), "\r\nB: X           \r\nB>");
     }
 
     private static void erase() {
@@ -321,12 +330,16 @@ public final class ShellTest {
         Kit.line(b, "SAVE 1 SHOW.COM");
         Kit.told(b);
         Kit.put(b, 58366, 9, 9);
+        Kit.put(b, 91, 9);
+        Kit.put(b, 124, 9, 9, 9, 9);
         Kit.type(b, "show b:first.x secon*.?y third\r");
         Kit.due("stops", b.run(1000), 2);
         Kit.due("SP", Kit.word(b, 0x4000), 58366);
         Kit.due("0, 0", Kit.word(b, 58366), 0);
         Kit.due("first", Kit.memory(b, 92, 16), "\u0002FIRST   X  \0\0\0\0");
         Kit.due("second", Kit.memory(b, 108, 16), "\0SECON????Y \0\0\0\0");
+        Kit.due("what is ahead", b.memory(91), 9);
+        Kit.due("what is behind", Kit.memory(b, 124, 4), "\t\t\t\t");
         String tail = " B:FIRST.X SECON*.?Y THIRD";
         Kit.due("tail", Kit.memory(b, 128, tail.length() + 2), (char) tail.length() + tail + "\0");
         Kit.due("data", b.register(12), 128);
