@@ -140,6 +140,18 @@ public final class BiosTest {
         bios(b, 0, 0);
         bios(b, 13, 0);
         Kit.due("as of a cold boot", b.memory(128 + 5), 0x31);
+        bios(b, 9, 1);
+        bios(b, 10, 4);
+        bios(b, 11, 9);
+        b.boot();
+        bios(b, 13, 0);
+        Kit.due("drive, track and sector too", b.memory(128 + 5), 0x31);
+        bios(b, 10, 4);
+        bios(b, 11, 9);
+        b.disk(0, 4, 9, 5, 0xE5 ^ 0x33);
+        bios(b, 1, 0);
+        bios(b, 13, 0);
+        Kit.due("a warm boot leaves them", b.memory(128 + 5), 0x33);
     }
 
     private static void records() {

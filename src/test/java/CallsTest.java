@@ -15,6 +15,7 @@ public final class CallsTest {
         sequential();
         extents();
         nextInEntryZero();
+        nextMadeInEntryZero();
         lastPlaces();
         random();
         sizes();
@@ -408,6 +409,23 @@ public final class CallsTest {
         Kit.due("40 fills", file(b, 40), 0);
         Kit.due("its block", b.memory(FCB + 31), 3);
         Kit.due("and no other", b.disk(0, 3, 1 + (6 * 6) % 26, 0, 0), 0xE5);
+    }
+
+    /** The next extent is made in the first entry, which is free. */
+    private static void nextMadeInEntryZero() {
+        MonitorBoard b = withData();
+        Kit.fcb(b, FCB, 0, "GONE", "");
+        file(b, 22);
+        Kit.fcb(b, FCB, 0, "STAYS", "");
+        file(b, 22);
+        Kit.fcb(b, FCB, 0, "GONE", "");
+        file(b, 19);
+        Kit.fcb(b, FCB, 0, "STAYS", "");
+        Kit.put(b, FCB + 32, 128);
+        Kit.due("21", file(b, 21), 0);
+        Kit.due("its EXTENT 1", dir(b, 0, 0, 12), 1);
+        Kit.due("its name", dir(b, 0, 0, 1), 'S');
+        Kit.due("EX", b.memory(FCB + 12), 1);
     }
 
     /** The last block, the last extent, and what call 13 tells anew. */

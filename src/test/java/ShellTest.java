@@ -245,6 +245,12 @@ public final class ShellTest {
         b.disk(0, 2, 1, 9, 128);
         says(b, "STAT *.*", "\r\nBIG      X   140 18k\r\nSMALL    Y   2 1k");
         says(b, "STAT S*.Y", "\r\nSMALL    Y   2 1k");
+        b.disk(0, 2, 1, 32 + 12, 1 ^ 156);
+        b.disk(0, 2, 1, 32 + 15, 12 ^ 32);
+        says(b, "STAT BIG.X", "\r\nBIG      X   20000 18k");
+        b.disk(0, 2, 1, 32 + 12, 156 ^ 255);
+        b.disk(0, 2, 1, 32 + 15, 32 ^ 255);
+        says(b, "STAT BIG.X", "\r\nBIG      X   32895 18k");
         says(b, "STAT A:", "\r\nNo file");
         says(b, "STAT", "\r\nA: 222k");
         Kit.line(b, "B:");
