@@ -195,4 +195,61 @@ final class Kit {
         }
         return b.toString();
     }
+
+    /** An ENTRY of a directory; the BLOCKS that are not told are 0. */
+    static byte[] entry(int user, String name, String type, int extent, int records, int... blocks) {
+        byte[] b = new byte[32];
+        b[0] = (byte) user;
+        System.arraycopy(bytes(String.format("%-8s%-3s", name, type)), 0, b, 1, 11);
+        b[12] = (byte) extent;
+        b[15] = (byte) records;
+        for (int i = 0; i < blocks.length; i++) {
+            b[16 + i] = (byte) blocks[i];
+        }
+        return b;
+    }
+
+    /** Writes up to four ENTRIES (others are free) as a record of a directory; ends with a warm boot, nothing told. */
+    static void entries(MonitorBoard board, int drive, int record, byte[]... entries) {
+        byte[] b = new byte[128];
+        java.util.Arrays.fill(b, (byte) 0xE5);
+        for (int i = 0; i < entries.length; i++) {
+            System.arraycopy(entries[i], 0, b, 32 * i, 32);
+        }
+        sector(board, drive, 2, 1 + (6 * record + record / 13) % 26, b);
+    }
+
+    /** Writes a sector by the BIOS; ends with a warm boot, nothing told. */
+    static void sector(MonitorBoard board, int drive, int track, int sector, byte[] bytes) {
+        tape(board, bytes);
+        board.load(0x2800);
+        put(board, 256, 0x31, 0, 0x40, 0x0E, drive, 0xCD, 0x1B, 0xEC, 0x01, track, 0, 0xCD, 0x1E, 0xEC, 0x01, sector, 0,
+            0xCD, 0x21, 0xEC, 0x01, 0, 0x28, 0xCD, 0x24, 0xEC, 0xCD, 0x2A, 0xEC, 0xC3, 0x03, 0xEC);
+        board.jump(256);
+        if (board.run(10000) != 1) {
+            throw new IllegalStateException("the sector was not written");
+        }
+        board.console();
+    }
+
+    /** A byte of an ENTRY. */
+    static int entryByte(MonitorBoard board, int drive, int entry, int k) {
+        int record = entry / 4;
+        return board.disk(drive, 2, 1 + (6 * record + record / 13) % 26, entry % 4 * 32 + k, 0);
+    }
+
+    /** Byte k of record r of a BLOCK. */
+    static int blockByte(MonitorBoard board, int drive, int block, int r, int k) {
+        int n = block * 8 + r;
+        int of = n % 26;
+        return board.disk(drive, 2 + n / 26, 1 + (6 * of + of / 13) % 26, k, 0);
+    }
+
+    /** What the console told of a call that ends in a boot. */
+    static String boots(MonitorBoard board, int number, int de) {
+        board.console();
+        due("call " + number + " boots", call(board, number, de), 1);
+        due("at the command line", board.register(9), 60419);
+        return told(board);
+    }
 }
