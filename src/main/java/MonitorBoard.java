@@ -1529,7 +1529,6 @@ public final class MonitorBoard {
 
         /** What stands at the address that the processor came to; false when it waits. */
         boolean serve() {
-            long spent = processor.spent;
             int answer;
             if (processor.pc != CALLS) {
                 answer = serveBios((processor.pc - BIOS) / 3);
@@ -1543,7 +1542,6 @@ public final class MonitorBoard {
                 }
             }
             if (answer == WAITS) {
-                processor.spent = spent;
                 return false;
             }
             processor.spent += SERVICE_STATES;

@@ -166,6 +166,7 @@ public final class AssemblerEdgesTest {
     private static void textsOfOneSign() {
         gives(" DB 'a'\n DB 'a'+1\n DB -'a'\n DB 2*'a'/2,'b'-'a'\n", "61629F6101");
         gives(" DB ''''\n DB ''''+1\n", "2728");
+        gives(" DB 'ab' , 'c' ,\t'de'\t, 5\n", "616263646505");
         gives(" DB ';',';;'\n", "3B3B3B");
         fault(" DB 'ab'^+1\n");
         fault(" DB 'ab'^*1\n");
@@ -327,6 +328,17 @@ public final class AssemblerEdgesTest {
         fault(" DW (1^");
         fault(" DW (1 ^2)\n");
         fault(" DW (1^,2)\n");
+        fault(" ORG " + "(".repeat(100) + "^(300" + ")".repeat(101) + "\n");
+        fault(" DS " + "(".repeat(100) + "^(3" + ")".repeat(101) + "\n");
+        fault("X EQU " + "(".repeat(100) + "^(3" + ")".repeat(101) + "\n");
+        word("(2*(3+4))", 14);
+        word("(10-(2-(3-1)))", 10);
+        word("((8/(2))-(1))", 3);
+        word("(1+(2*(3+(4*(5)))))", 47);
+        word("5--(3)", 8);
+        word("-(6)/2", 32765);
+        word("8/-(2)", 0);
+        word("(1-(-(6)/2))", 65536 + 1 - 32765);
     }
 
     /** ORG, DS, EQU want LABELS that are told above. */
@@ -461,6 +473,11 @@ public final class AssemblerEdgesTest {
         fault(" PUSH ^SP\n");
         fault(" POP ^M\n");
         fault(" DAD ^A\n");
+        for (String register : new String[] {"A", "C", "E", "L", "I", "BC"}) {
+            fault(" INX ^" + register + "\n");
+            fault(" PUSH ^" + register + "\n");
+            fault(" LDAX ^" + register + "\n");
+        }
         fault(" INR ^SP\n");
         fault(" MVI ^F,1\n");
         fault(" NOP ^A\n");

@@ -6,6 +6,7 @@ public final class CallEdgesTest {
         blocksCounted();
         blocksToldAnew();
         keysOfTheBios();
+        nothingOfTheBios();
         drivesOfTheBios();
         sectorsOfTheBios();
         recordsOfTheBios();
@@ -116,6 +117,25 @@ public final class CallEdgesTest {
         bios(b, 4, 0x4180);
         bios(b, 4, 0x00FF);
         Kit.due("signs", Kit.told(b), "\0\u007f");
+    }
+
+    /** 5, 6 nothing; 7 A becomes 26; 15 A 0; other registers stay. */
+    private static void nothingOfTheBios() {
+        int[][] due = {{5, 0x55}, {6, 0x55}, {7, 26}, {15, 0}, {8, 0x55}, {2, 0}};
+        for (int[] d : due) {
+            MonitorBoard b = new MonitorBoard();
+            b.console();
+            int at = 60416 + 3 * d[0];
+            Kit.put(b, 256, 0x31, 0, 0x40, 0x01, 0x34, 0x12, 0x11, 0x78, 0x56, 0x21, 0xBC, 0x9A, 0x3E, 0x55, 0x37, 0xCD, at & 255, at >> 8, 0x76);
+            b.jump(256);
+            Kit.due("stops", b.run(1000), 2);
+            int[] others = {0x12, 0x34, 0x56, 0x78, 0x9A, 0xBC, 3};
+            for (int i = 0; i < others.length; i++) {
+                Kit.due("register " + i + " of " + d[0], b.register(i), others[i]);
+            }
+            Kit.due("A of " + d[0], b.register(7), d[1]);
+            Kit.due("nothing told", b.console(), 0);
+        }
     }
 
     /** 9: others than 0, 1: HL 0, the drive stays. */

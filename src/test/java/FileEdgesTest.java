@@ -8,6 +8,7 @@ public final class FileEdgesTest {
         openByExtent();
         openFirstOfTwo();
         openNone();
+        openBringsNoName();
         closeByExtent();
         closeFirstOfTwo();
         makeByExtent();
@@ -33,6 +34,7 @@ public final class FileEdgesTest {
         placeBeyond();
         placeOfEachExtent();
         placeNotThere();
+        placeCloses();
         placeInFullDirectory();
         placeOnFullDisk();
         placeFilled();
@@ -165,8 +167,24 @@ public final class FileEdgesTest {
             Kit.due("the FCB stays", shown(b), before);
         }
         Kit.put(b, FCB + 2, "?");
-        Kit.due("? is a sign as others for 15", file(b, 15), 255);
-        Kit.due("and for 16", file(b, 16), 255);
+        Kit.put(b, FCB + 12, 0);
+        for (int number : new int[] {15, 16, 23, 30}) {
+            Kit.due("? is a sign as others for " + number, file(b, number), 255);
+        }
+        Kit.due("the ENTRY stays", Kit.entryByte(b, 0, 1, 15), 1);
+        Kit.due("17 finds it", file(b, 17), 1);
+    }
+
+    /** 15: bytes 12 .. 31 come to the FCB, and no other. */
+    private static void openBringsNoName() {
+        byte[] entry = Kit.entry(0, "\u00d8", "\u00a0\u00a0\u00a0", 0, 7, 5);
+        entry[13] = 3;
+        entry[14] = 4;
+        entry[31] = 9;
+        MonitorBoard b = board(entry);
+        fcb(b, "X", 0, 1, 2, 66, 0x434241);
+        Kit.due("open", file(b, 15), 0);
+        Kit.due("the FCB", shown(b), "\0X          \0\3\4\7\5" + "\0".repeat(14) + "\tBABC");
     }
 
     /** 16: EX modulo 32; RC and BLOCKS (15 .. 31) come to the ENTRY, nothing else. */
@@ -633,6 +651,21 @@ public final class FileEdgesTest {
         Kit.due("no BLOCK", file(b, 33), 1);
         Kit.put(b, FCB + 16, 243);
         Kit.due("no such BLOCK", file(b, 33), 1);
+    }
+
+    /** The old EXTENT is CLOSED by 34 and 40, not by 33, nor where EX stays. */
+    private static void placeCloses() {
+        for (int number : new int[] {33, 34, 40}) {
+            MonitorBoard b = board(Kit.entry(0, "X", "", 0, 1, 5), Kit.entry(0, "X", "", 1, 1, 6));
+            fcb(b, "X", 0, 77, 7, 0, 0);
+            Kit.due("call " + number, file(b, number), 0);
+            Kit.due("EX stays", Kit.entryByte(b, 0, 0, 15), 1);
+            fcb(b, "X", 0, 77, 7, 0, 128);
+            Kit.due("call " + number, file(b, number), 0);
+            Kit.due("EX was another", Kit.entryByte(b, 0, 0, 15), number == 33 ? 1 : 77);
+            Kit.due("its BLOCK", Kit.entryByte(b, 0, 0, 16), number == 33 ? 5 : 7);
+            Kit.due("that one is OPENED", block(b, 0), 6);
+        }
     }
 
     /** 34, 40: A 5 if it can't be MADE; EX and CR become, the old one was CLOSED. */

@@ -30,6 +30,7 @@ public final class ShellEdgesTest {
         programSizes();
         programWords();
         programTails();
+        programRegisters();
         programNames();
         Kit.finish();
     }
@@ -186,6 +187,10 @@ public final class ShellEdgesTest {
         bad(b, "DIR ????????" + "?");
         bad(b, "DIR *?");
         bad(b, "DIR A.*C");
+        for (String word : new String[] {"?", "A?", "1234567?", "A.?", "A.BC?", "*", ".??"}) {
+            bad(b, "TYPE " + word);
+            bad(b, "DUMP " + word);
+        }
         says(b, "TYPE ABCDEFGH*.CDE*", "\r\n");
     }
 
@@ -302,6 +307,10 @@ public final class ShellEdgesTest {
         bad(b, "REN ABCDEFGH*=OTHER");
         bad(b, "REN Q=B:OTHER");
         says(b, "REN A:Q  =  OTHER", "");
+        Kit.entries(b, 1, 0, Kit.entry(0, "Q", "", 0, 1, 5));
+        says(b, "REN B:R=Q", "");
+        Kit.due("the drive that the first one means", Kit.entryByte(b, 1, 0, 1), 'R');
+        Kit.due("not the one at hand", Kit.line(b, "DIR Q"), "\r\nA: Q           \r\nA>");
     }
 
     /** TYPE up to a 26: at the first byte, at the last, or none. */
@@ -461,6 +470,15 @@ public final class ShellEdgesTest {
             + "\r\nA            9 5k");
         says(b, "STAT", "\r\nA: 238k");
         says(b, "STAT Z", "\r\nNo file");
+        Kit.entries(b, 1, 0, Kit.entry(0, "?", "", 0, 1, 5), Kit.entry(0, "X", "", 0, 2, 6, 7));
+        says(b, "STAT B:?", "\r\n?            1 1k\r\nX            2 2k");
+        MonitorBoard c = new MonitorBoard();
+        byte[] all = Kit.entry(0, "ALL", "", 1, 0, 9);
+        byte[] last = Kit.entry(0, "ALL", "", 0, 0, 9);
+        for (int record = 0; record < 16; record++) {
+            Kit.entries(c, 0, record, all, all, all, record == 15 ? last : all);
+        }
+        says(c, "STAT ALL", "\r\nALL          128 64k");
     }
 
     /** COPY: the same drive, name and type: BAD; of nothing; over what is there. */
@@ -482,6 +500,9 @@ public final class ShellEdgesTest {
         says(b, "COPY A:BIG=B:BIG", "");
         says(b, "STAT BIG", "\r\nBIG          130 17k");
         says(b, "COPY BIG.A=BIG", "");
+        says(b, "COPY BIG.BCD=BIG.A", "");
+        says(b, "COPY BIG.BCE=BIG.BCD", "");
+        says(b, "COPY PIG.BCE=BIG.BCE", "");
         says(b, "COPY X=NONE", "\r\nNo file");
         says(b, "STAT X", "\r\nX            0 0k");
         bad(b, "COPY X=?");
@@ -599,6 +620,7 @@ public final class ShellEdgesTest {
         badHex(":01010000AA5" + "\u001a" + "4" + END);
         badHex(":00000001F");
         badHex(":00000001FE");
+        badHex(":00000001FE01");
         badHex(":0000000" + "/1FF");
         badHex(":0000000" + ":1FF");
         badHex(":0000000" + "@1FF");
@@ -607,6 +629,8 @@ public final class ShellEdgesTest {
         says(b, "HEXLOAD H", "\r\nNo file");
         says(b, "SAVE 0 H.HEX", "");
         says(b, "HEXLOAD H", "\r\nBad hex");
+        says(b, "HEXLOAD 12345678", "\r\nNo file");
+        bad(b, "HEXLOAD H.H");
         bad(b, "HEXLOAD H.HEX");
         bad(b, "HEXLOAD ?");
         bad(b, "HEXLOAD *");
@@ -672,8 +696,11 @@ public final class ShellEdgesTest {
         MonitorBoard b = new MonitorBoard();
         Kit.put(b, 256, 0x76);
         Kit.line(b, "SAVE 1 P.COM");
+        Kit.put(b, 91, "\u0091".repeat(34));
         Kit.type(b, line + "\r");
         Kit.due(line, b.run(1000), 2);
+        Kit.due("what is ahead", b.memory(91), 0x91);
+        Kit.due("what is behind", b.memory(124), 0x91);
         Kit.due("second word of " + line, Kit.memory(b, 92, 16), first + "\0\0\0\0");
         Kit.due("third word of " + line, Kit.memory(b, 108, 16), second + "\0\0\0\0");
     }
@@ -718,6 +745,23 @@ public final class ShellEdgesTest {
         Kit.put(b, 256, 0xC9);
         Kit.line(b, "SAVE 1 P.COM");
         Kit.due("a RET is a warm boot", Kit.line(b, "P"), "\r\nA>");
+    }
+
+    /** SP 58366; all other registers 0, whatever they were. */
+    private static void programRegisters() {
+        MonitorBoard b = new MonitorBoard();
+        Kit.put(b, 256, 0x76);
+        Kit.line(b, "SAVE 1 P.COM");
+        Kit.put(b, 0x2000, 0x31, 0, 0x40, 0x01, 0x34, 0x12, 0x11, 0x78, 0x56, 0x21, 0xBC, 0x9A, 0xAF, 0x3D, 0x37, 0xC3, 0x03, 0xEC);
+        b.jump(0x2000);
+        Kit.due("a warm boot", b.run(1000), 1);
+        Kit.due("leaves them", b.register(7), 255);
+        Kit.type(b, "P\r");
+        Kit.due("stops", b.run(1000), 2);
+        int[] due = {0, 0, 0, 0, 0, 0, 2, 0, 58366, 257};
+        for (int i = 0; i < due.length; i++) {
+            Kit.due("register " + i, b.register(i), due[i]);
+        }
     }
 
     /** Any other FILE word (no ?, no type, a name). */
