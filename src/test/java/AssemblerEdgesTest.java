@@ -81,6 +81,18 @@ public final class AssemblerEdgesTest {
         fault(" NOP ^\u000b\n");
         fault(" NOP^\u00a0\n");
         fault(" NOP^\u008a\n");
+        for (int sign : new int[] {0, 31, 33, 127, 128, 254, 255}) {
+            char c = (char) sign;
+            fault("^" + c + "\n");
+            fault(" ^" + c + "\n");
+            fault(" NOP^" + c + "\n");
+            fault(" MOV ^" + c + "\n");
+            fault(" DW ^" + c + "\n");
+            fault("L^" + c + "\n");
+            fault(" DW 1^" + c + "\n");
+            fault(" DW L^" + c + "\n");
+            gives(" NOP ;" + c + "\n", "00");
+        }
     }
 
     /** The last line may lack its 10; a 13 at the text's end is a FAULT. */

@@ -4,6 +4,7 @@ public final class CallEdgesTest {
 
     public static void main(String[] args) {
         blocksCounted();
+        blocksBehindTheDirectory();
         blocksToldAnew();
         keysOfTheBios();
         nothingOfTheBios();
@@ -56,6 +57,17 @@ public final class CallEdgesTest {
         Kit.due("no BLOCK 243", b.memory(USE + 30) & 0x1F, 0);
         Kit.call(b, 0, 0);
         Kit.due("STAT", Kit.line(b, "STAT"), "\r\nA: 235k\r\nA>");
+    }
+
+    /** The DIRECTORY has 64 ENTRIES: what a file has behind them, in BLOCK 2, tells none. */
+    private static void blocksBehindTheDirectory() {
+        MonitorBoard b = new MonitorBoard();
+        Kit.put(b, 256, "\u0001".repeat(16) + "defghijklmnopqrs");
+        Kit.line(b, "SAVE 1 X");
+        Kit.due("in BLOCK 2", Kit.blockByte(b, 0, 2, 0, 16), 'd');
+        Kit.call(b, 0, 0);
+        Kit.due("STAT", Kit.line(b, "STAT"), "\r\nA: 240k\r\nA>");
+        Kit.due("no such file", Kit.line(b, "STAT *.*"), "\r\nX            2 1k\r\nA>");
     }
 
     /** Told anew when the drive is LOGGED in, and not before. */

@@ -8,6 +8,7 @@ public final class FaceEdgesTest {
         feedBytes();
         endRefused();
         keysRefused();
+        keysAllTaken();
         bootOfEachState();
         runRefused();
         runUntilUsed();
@@ -127,6 +128,24 @@ public final class FaceEdgesTest {
         Kit.due("stays", c.end(4000), true);
         Kit.due("no key came", c.run(1), 1);
         Kit.due("none waits", c.end(0) ? c.keys() : -2, 0);
+    }
+
+    /** Promise 4: all 2000 are taken, though none ends a line. */
+    private static void keysAllTaken() {
+        for (int way = 0; way < 2; way++) {
+            MonitorBoard b = new MonitorBoard();
+            byte[] back = new byte[2000];
+            java.util.Arrays.fill(back, (byte) (way == 0 ? 8 : 127));
+            Kit.tape(b, back);
+            Kit.due("2000", b.keys(), 2000);
+            if (way == 1) {
+                Kit.put(b, 0x2000, 9);
+                Kit.put(b, 256, 0x31, 0, 0x40, 0x0E, 10, 0x11, 0, 0x20, 0xCD, 5, 0, 0x76);
+                b.jump(256);
+            }
+            Kit.due("waits", b.run(1000), 1);
+            Kit.due("none is left", b.keys(), 0);
+        }
     }
 
     /** Promise 5: a cold boot out of each state that the board can be in. */
