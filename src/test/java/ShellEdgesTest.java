@@ -369,7 +369,7 @@ public final class ShellEdgesTest {
     /** SAVE n: 0 .. 255. */
     private static void saveNumbers() {
         MonitorBoard b = new MonitorBoard();
-        for (String n : new String[] {"256", "257", "-1", "+1", "1.", "0X1", "1H", "99999999999999999999", "4294967296", "A", "?"}) {
+        for (String n : new String[] {"256", "257", "-1", "+1", "1.", "0X1", "1H", "99999999999999999999", "4294967296", "A", "?", "/", ":", "1/", "1:", "0:", "2/5"}) {
             bad(b, "SAVE " + n + " X");
         }
         says(b, "DIR", "\r\nNo file");
@@ -416,7 +416,7 @@ public final class ShellEdgesTest {
     /** USER n, 0 .. 15. */
     private static void userNumbers() {
         MonitorBoard b = new MonitorBoard();
-        for (String n : new String[] {"16", "31", "255", "-1", "1.", "99999999999", "A"}) {
+        for (String n : new String[] {"16", "31", "255", "-1", "1.", "99999999999", "A", "/", ":", "1/", "0:", "1:"}) {
             bad(b, "USER " + n);
         }
         Kit.due("15", Kit.line(b, "USER 15"), "\r\nA15>");
