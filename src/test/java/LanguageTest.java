@@ -7,6 +7,7 @@ import java.nio.file.Files;
 import java.nio.file.Path;
 import java.util.Arrays;
 import java.util.TreeSet;
+import java.util.regex.Matcher;
 import java.util.regex.Pattern;
 
 /** The face of the class and the plainest rules of LANGUAGE.md. */
@@ -17,6 +18,9 @@ public final class LanguageTest {
         "public int memory(int)", "public void load(int)", "public void jump(int)", "public int console()",
         "public int out(int)", "public int assemble()", "public int back()", "public int disk(int,int,int,int,int)",
         "public int list(int)", "public int hex()"};
+
+    private static final String LIBRARY =
+        " Arrays.fill Arrays.copyOf Arrays.copyOfRange System.arraycopy Math.max Math.min Integer.bitCount ";
 
     public static void main(String[] args) throws Exception {
         face();
@@ -72,6 +76,10 @@ public final class LanguageTest {
         }
         for (String sign : new String[] {"->", "::", "Exact(", "\" +", "+ \"", "while (true)", "for (;;)", "package "}) {
             Kit.due("no " + sign, bare.contains(sign), false);
+        }
+        Matcher used = Pattern.compile("\\b(Math|Integer|Long|Arrays|System|String|Character|List)\\.(\\w+)").matcher(bare);
+        while (used.find()) {
+            Kit.due("rule 4 has " + used.group(), LIBRARY.contains(" " + used.group() + " "), true);
         }
         Kit.due("one import", bare.split("\nimport |^import ").length - 1, 1);
         int length = 0;
